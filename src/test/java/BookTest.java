@@ -1,0 +1,73 @@
+/** Promise 13: book. */
+public final class BookTest {
+    public static void main(String[] args) {
+        wrong();
+        throughTheAisle();
+        givenBackAndCleaned();
+        Check.end();
+    }
+
+    private static void wrong() {
+        HotAisle x = new HotAisle();
+        int[] bad = {-1, 11, 12, Integer.MIN_VALUE, Integer.MAX_VALUE};
+        for (int at : bad) {
+            Check.same("book(" + at + ", 1)", x.book(at, 1), HotAisle.BAD);
+        }
+        int[] badStuff = {0, -1, 5, Integer.MIN_VALUE, Integer.MAX_VALUE};
+        for (int at = 0; at < 11; at++) {
+            for (int s : badStuff) {
+                Check.same("book(" + at + ", " + s + ")", x.book(at, s), HotAisle.BAD);
+            }
+        }
+    }
+
+    private static void throughTheAisle() {
+        HotAisle x = new HotAisle();
+        Rig.feed(x, 12);
+        Rig.booked(x, 0, 48, 36, 24, 0);
+        Rig.booked(x, 8, 48, 36, 24, 0);
+        Rig.done(x, 0, "1 take 0 tap");
+        Rig.booked(x, 0, 4, 3, 1, 0);
+        Rig.booked(x, 2, 44, 33, 23, 0);
+        x = Rig.withMetal();
+        Rig.booked(x, 0, 4, 3, 1, 0);
+        Rig.booked(x, 1, 0, 0, 0, 0);
+        Rig.booked(x, 2, 38, 0, 0, 0);
+        Rig.booked(x, 3, 2, 0, 0, 2);
+        Rig.booked(x, 4, 0, 0, 0, 0);
+        Rig.booked(x, 5, 0, 0, 0, 35);
+        Rig.booked(x, 6, 0, 0, 0, 0);
+        Rig.booked(x, 7, 0, 0, 0, 0);
+        Rig.booked(x, 8, 48, 36, 24, 0);
+        Rig.booked(x, 9, 4, 33, 23, 0);
+        Rig.booked(x, 10, 0, 0, 0, 37);
+        Rig.done(x, 1, "15 pour");
+        Rig.booked(x, 2, 0, 0, 0, 0);
+        Rig.booked(x, 3, 4, 0, 0, 2);
+        Rig.booked(x, 4, 36, 0, 0, 0);
+        Rig.done(x, 0, "clean 0 tap 4 pour");
+        Rig.booked(x, 0, 0, 0, 0, 0);
+        Rig.booked(x, 1, 2, 3, 1, 0);
+        Rig.booked(x, 3, 4, 0, 0, 0);
+        Rig.booked(x, 7, 2, 0, 0, 2);
+        Check.same("cold(0, 50)", x.cold(0, 50), 1150 * 6 / 56);
+        Rig.booked(x, 1, 52, 3, 1, 0);
+        Rig.booked(x, 8, 98, 36, 24, 0);
+    }
+
+    private static void givenBackAndCleaned() {
+        HotAisle x = Rig.withFullVessel();
+        x.blow(0, true);
+        x.minutes(1);
+        Rig.done(x, 0, "skim 0");
+        Rig.booked(x, 2, 0, 0, 0, 12);
+        Rig.done(x, 0, "pour");
+        Rig.booked(x, 6, 0, 0, 0, 10);
+        Rig.booked(x, 5, 0, 0, 0, 0);
+        Rig.booked(x, 0, 4, 3, 1, 0);
+        Rig.booked(x, 3, 2, 0, 0, 2);
+        Rig.done(x, 0, "1 clean");
+        Rig.booked(x, 7, 2, 0, 0, 2);
+        Rig.booked(x, 3, 0, 0, 0, 0);
+    }
+}

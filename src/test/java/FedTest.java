@@ -1,0 +1,78 @@
+/** Promise 2: fed, and what a minute feeds. */
+public final class FedTest {
+    public static void main(String[] args) {
+        answersWhatWas();
+        feedsOnlyWhileTold();
+        feedsUpToSixHundred();
+        feedsUpToSixHundredExactly();
+        Check.end();
+    }
+
+    private static void answersWhatWas() {
+        HotAisle x = new HotAisle();
+        Check.same("fed(false)", x.fed(false), 0);
+        Check.same("fed(true)", x.fed(true), 0);
+        Check.same("fed(true)", x.fed(true), 1);
+        Check.same("count(9)", x.count(9), 1);
+        Check.same("fed(false)", x.fed(false), 1);
+        Check.same("count(9)", x.count(9), 0);
+        Check.same("fed(false)", x.fed(false), 0);
+        Rig.booked(x, 0, 0, 0, 0, 0);
+    }
+
+    private static void feedsOnlyWhileTold() {
+        HotAisle x = new HotAisle();
+        x.minutes(2);
+        Rig.booked(x, 0, 0, 0, 0, 0);
+        x.fed(true);
+        x.minutes(1);
+        Rig.booked(x, 0, 4, 3, 2, 0);
+        Rig.booked(x, 8, 4, 3, 2, 0);
+        x.minutes(6);
+        Rig.booked(x, 0, 28, 21, 14, 0);
+        x.fed(false);
+        x.minutes(5);
+        Rig.booked(x, 0, 28, 21, 14, 0);
+        Rig.booked(x, 8, 28, 21, 14, 0);
+        Check.same("count(5)", x.count(5), 0);
+    }
+
+    private static void feedsUpToSixHundred() {
+        HotAisle x = new HotAisle();
+        x.fed(true);
+        x.minutes(60);
+        x.minutes(6);
+        Rig.booked(x, 0, 264, 198, 132, 0);
+        Check.same("count(5) at 594", x.count(5), 0);
+        x.minutes(1);
+        Check.same("count(5) with no room for nine", x.count(5), 1);
+        Rig.booked(x, 0, 264, 198, 132, 0);
+        Rig.booked(x, 8, 264, 198, 132, 0);
+        x.fed(false);
+        x.minutes(3);
+        Check.same("count(5) while not fed", x.count(5), 1);
+    }
+
+    /** Three ladles of 100 leave 240 of 540; 39 minutes make them 591, and nine more are 600. */
+    private static void feedsUpToSixHundredExactly() {
+        HotAisle x = new HotAisle();
+        Rig.feed(x, 60);
+        Rig.done(x, 0, "1 take 0 tap 1 set");
+        Rig.done(x, 0, "6 take 0 tap 6 set");
+        Rig.done(x, 0, "10 take 0 tap");
+        Check.same("all of the furnace", all(x), 240);
+        Rig.feed(x, 39);
+        Check.same("all of the furnace", all(x), 591);
+        x.fed(true);
+        x.minutes(1);
+        Check.same("all of the furnace", all(x), 600);
+        Check.same("count(5) at 600", x.count(5), 0);
+        x.minutes(2);
+        Check.same("all of the furnace", all(x), 600);
+        Check.same("count(5) above 600", x.count(5), 2);
+    }
+
+    private static int all(HotAisle x) {
+        return x.book(0, 1) + x.book(0, 2) + x.book(0, 3);
+    }
+}

@@ -1,0 +1,124 @@
+import java.util.List;
+
+/** Short ways to bring an aisle where a test wants it. */
+final class Rig {
+    private static final List<String> WORDS = List.of("go", "take", "set", "tap", "pour", "skim", "draw", "clean");
+    static final int GO = 0, TAKE = 1, SET = 2, TAP = 3, POUR = 4, SKIM = 5, DRAW = 6, CLEAN = 7;
+
+    private Rig() {
+    }
+
+    /** Gives a crane orders: a number is a GO there, a word the order of that name. Answers how many it has. */
+    static int give(HotAisle x, int crane, String orders) {
+        int had = 0;
+        for (String word : orders.split(" ")) {
+            int what = WORDS.indexOf(word);
+            had = what < 0 ? x.order(crane, GO, Integer.parseInt(word)) : x.order(crane, what, 0);
+            Check.that("room for the order " + word, had > 0);
+        }
+        return had;
+    }
+
+    /** Gives a crane orders and waits until all are done. Answers the minutes. */
+    static int done(HotAisle x, int crane, String orders) {
+        give(x, crane, orders);
+        int passed = x.until(200);
+        Check.same("orders left of " + orders, x.crane(crane, 2), 0);
+        return passed;
+    }
+
+    /** Gives a crane an order that can't be carried out, sees it wait two minutes, and drops it. */
+    static void refused(HotAisle x, int crane, String order) {
+        int waits = x.crane(crane, 4);
+        give(x, crane, order);
+        Check.same("minutes(2) with " + order, x.minutes(2), 0);
+        Check.same("waits for " + order, x.crane(crane, 4), waits + 2);
+        Check.same("drop of " + order, x.drop(crane), 1);
+    }
+
+    /** Feeds an aisle for some minutes (60 at most), and no more then. */
+    static void feed(HotAisle x, int minutes) {
+        x.fed(true);
+        x.minutes(minutes);
+        x.fed(false);
+    }
+
+    /** Vessel 0 with 42 copper, 33 iron, 23 sulphur at 1150; crane 0 is over it with ladle 0, empty, 2 copper in its skull; 4, 3, 1 in the furnace. */
+    static HotAisle withFullVessel() {
+        HotAisle x = new HotAisle();
+        feed(x, 12);
+        done(x, 0, "1 take 0 tap 4 pour");
+        return x;
+    }
+
+    /** Vessel 0 with 38 copper alone, not blown; crane 0 at 1 with ladle 0, empty, 2 copper and 2 slag in its skull; 35 slag in the pot. */
+    static HotAisle withCopperAlone() {
+        HotAisle x = withFullVessel();
+        x.blow(0, true);
+        x.minutes(10);
+        x.blow(0, false);
+        done(x, 0, "skim 2 pour 1");
+        return x;
+    }
+
+    /** The same, drawn: crane 1 at 4 with 38 copper in ladle 1. */
+    static HotAisle withMetal() {
+        HotAisle x = withCopperAlone();
+        done(x, 1, "6 take 4 draw");
+        return x;
+    }
+
+    static void stuffOfVessel(HotAisle x, int vessel, int copper, int iron, int sulphur, int slag) {
+        Check.same("copper in vessel " + vessel, x.vessel(vessel, 2), copper);
+        Check.same("iron in vessel " + vessel, x.vessel(vessel, 3), iron);
+        Check.same("sulphur in vessel " + vessel, x.vessel(vessel, 4), sulphur);
+        Check.same("slag in vessel " + vessel, x.vessel(vessel, 5), slag);
+    }
+
+    /** What a ladle holds, with first = 4, or what its skull has, with first = 8. */
+    static void stuffOfLadle(HotAisle x, int ladle, int first, int copper, int iron, int sulphur, int slag) {
+        Check.same("copper, ladle(" + ladle + ", " + first + ")", x.ladle(ladle, first), copper);
+        Check.same("iron, ladle(" + ladle + ", " + (first + 1) + ")", x.ladle(ladle, first + 1), iron);
+        Check.same("sulphur, ladle(" + ladle + ", " + (first + 2) + ")", x.ladle(ladle, first + 2), sulphur);
+        Check.same("slag, ladle(" + ladle + ", " + (first + 3) + ")", x.ladle(ladle, first + 3), slag);
+    }
+
+    static void booked(HotAisle x, int at, int copper, int iron, int sulphur, int slag) {
+        Check.same("book(" + at + ", 1)", x.book(at, 1), copper);
+        Check.same("book(" + at + ", 2)", x.book(at, 2), iron);
+        Check.same("book(" + at + ", 3)", x.book(at, 3), sulphur);
+        Check.same("book(" + at + ", 4)", x.book(at, 4), slag);
+    }
+
+    /** Every answer that an aisle gives without a change: 132 calls. */
+    static int[] answers(HotAisle x) {
+        int[] all = new int[132];
+        int n = 0;
+        for (int crane = 0; crane < 2; crane++) {
+            for (int what = 0; what < 5; what++) {
+                all[n++] = x.crane(crane, what);
+            }
+        }
+        for (int ladle = 0; ladle < 4; ladle++) {
+            for (int what = 0; what < 12; what++) {
+                if (what != 3) {
+                    all[n++] = x.ladle(ladle, what);
+                }
+            }
+        }
+        for (int vessel = 0; vessel < 3; vessel++) {
+            for (int what = 0; what < 8; what++) {
+                all[n++] = x.vessel(vessel, what);
+            }
+        }
+        for (int at = 0; at < 11; at++) {
+            for (int s = 1; s < 5; s++) {
+                all[n++] = x.book(at, s);
+            }
+        }
+        for (int what = 0; what < 10; what++) {
+            all[n++] = x.count(what);
+        }
+        return all;
+    }
+}
