@@ -8,15 +8,15 @@ public final class HotAisle {
 
     private static final int FURNACE = 0, POT = 2, WHEEL = 15, LAST_PLACE = 15;
     private static final int CLEANING_LEFT = 1, CLEANING_RIGHT = 14;
-    private static final int VESSELS = 3, PLACES_A_VESSEL = 4, LADLES = 4;
-    private static final int[] LADLES_FIRST = {1, 6, 10, 14};
-    private static final int LEFT_FIRST = 3, RIGHT_FIRST = 11;
+    private static final int[] VESSEL_PLACES = {4, 8, 12};
+    private static final int[] FIRST_LADLE_PLACES = {1, 6, 10, 14};
+    private static final int FIRST_LEFT_PLACE = 3, FIRST_RIGHT_PLACE = 11;
 
     private static final int FURNACE_HOLDS = 600, VESSEL_HOLDS = 300, LADLE_HOLDS = 100;
     private static final int FEED_COPPER = 4, FEED_IRON = 3, FEED_SULPHUR = 2;
     private static final int SKULL_HOLDS = 20, SKULL_A_POUR = 2;
     private static final int PARTS = 6, ANODE_COPPER = 5;
-    private static final int MATTE_HEAT = 1150, LEAST_HEAT = 1000, MOST_HEAT = 1300, COOLING = 8;
+    private static final int FIRST_HEAT = 1150, MATTE_HEAT = 1150, LEAST_HEAT = 1000, MOST_HEAT = 1300, COOLING = 8;
     private static final int IRON_HEAT = 4, SULPHUR_HEAT = 3, COPPER_HEAT = 2;
 
     private static final int FIRST_LIMIT = 12, MOST_LIMIT = 30, MOST_COLD = 50;
@@ -275,9 +275,14 @@ public final class HotAisle {
     }
 
     private static final class Vessel {
+        final int place;
         final Stuff stuff = new Stuff();
-        int heat = MATTE_HEAT, held, stopped;
+        int heat = FIRST_HEAT, held, stopped;
         boolean isBlown;
+
+        Vessel(int place) {
+            this.place = place;
+        }
 
         int answer(int what) {
             switch (what) {
@@ -293,14 +298,10 @@ public final class HotAisle {
         /** Told before the stuff itself comes in. */
         void mixHeat(int heatOfComing, int coming) {
             int before = stuff.all();
-            if (coming > 0 && before + coming > 0) {
-                heat = (heat * before + heatOfComing * coming) / (before + coming);
+            int together = before + coming;
+            if (coming > 0 && together > 0) {
+                heat = (heat * before + heatOfComing * coming) / together;
             }
-        }
-
-        void takeIn(Stuff matte) {
-            mixHeat(MATTE_HEAT, matte.all());
-            stuff.addAll(matte);
         }
 
         boolean isTooColdOrTooHot() {
@@ -357,12 +358,8 @@ public final class HotAisle {
             return Math.min(Math.min(SKULL_A_POUR, stuff.all()), SKULL_HOLDS - skull.all());
         }
 
-        int stuffThatComesOut() {
-            return stuff.all() - stuffThatFreezes();
-        }
-
-        void freeze() {
-            int left = stuffThatFreezes();
+        void freeze(int units) {
+            int left = units;
             for (int s = COPPER; s <= SLAG; s++) {
                 int part = Math.min(left, stuff.of(s));
                 stuff.add(s, -part);
@@ -449,21 +446,21 @@ public final class HotAisle {
     /** All that is kept and comes back: the aisle as it stands. */
     private static final class Aisle {
         final Stuff furnace = new Stuff();
-        final Vessel[] vessels = new Vessel[VESSELS];
-        final Ladle[] ladles = new Ladle[LADLES];
-        final Crane left = new Crane(0, LEFT_FIRST);
-        final Crane right = new Crane(1, RIGHT_FIRST);
+        final Vessel[] vessels = new Vessel[VESSEL_PLACES.length];
+        final Ladle[] ladles = new Ladle[FIRST_LADLE_PLACES.length];
+        final Crane left = new Crane(0, FIRST_LEFT_PLACE);
+        final Crane right = new Crane(1, FIRST_RIGHT_PLACE);
         final Books books = new Books();
         int wheelCopper;
         int gasLimit = FIRST_LIMIT;
         boolean isFed;
 
         Aisle() {
-            for (int i = 0; i < vessels.length; i++) {
-                vessels[i] = new Vessel();
+            for (int i = 0; i < vessels.length && i < VESSEL_PLACES.length; i++) {
+                vessels[i] = new Vessel(VESSEL_PLACES[i]);
             }
-            for (int i = 0; i < ladles.length && i < LADLES_FIRST.length; i++) {
-                ladles[i] = new Ladle(LADLES_FIRST[i]);
+            for (int i = 0; i < ladles.length && i < FIRST_LADLE_PLACES.length; i++) {
+                ladles[i] = new Ladle(FIRST_LADLE_PLACES[i]);
             }
         }
 
@@ -488,8 +485,12 @@ public final class HotAisle {
         }
 
         Vessel vesselAt(int place) {
-            // Vessels 0, 1, 2 are at 4, 8, 12; the furnace's 0 gives the number -1, which none has.
-            return place % PLACES_A_VESSEL == 0 ? vesselNumbered(place / PLACES_A_VESSEL - 1) : null;
+            for (Vessel vessel : vessels) {
+                if (vessel.place == place) {
+                    return vessel;
+                }
+            }
+            return null;
         }
 
         boolean isFloor(int place) {
@@ -689,12 +690,13 @@ public final class HotAisle {
             if (carried == null) {
                 return false;
             }
+            Vessel vessel = vesselAt(crane.place);
             switch (crane.firstWhat()) {
                 case SET: return set(carried);
                 case TAP: return tap(carried);
-                case POUR: return pour(carried);
-                case SKIM: return skim(carried);
-                case DRAW: return draw(carried);
+                case POUR: return pour(carried, vessel);
+                case SKIM: return vessel != null && skim(carried, vessel);
+                case DRAW: return vessel != null && draw(carried, vessel);
                 case CLEAN: return clean(carried);
                 default: return false;
             }
@@ -741,14 +743,16 @@ public final class HotAisle {
             ladle.stuff.add(s, k);
         }
 
-        private boolean pour(Ladle ladle) {
-            if (!canPour(ladle)) {
+        private boolean pour(Ladle ladle, Vessel vessel) {
+            int freezing = ladle.stuffThatFreezes();
+            int coming = ladle.stuff.all() - freezing;
+            if (!canPour(ladle, vessel, coming)) {
                 return false;
             }
-            ladle.freeze();
-            Vessel vessel = vesselAt(ladle.place);
+            ladle.freeze(freezing);
             if (vessel != null) {
-                vessel.takeIn(ladle.stuff);
+                vessel.mixHeat(MATTE_HEAT, coming);
+                vessel.stuff.addAll(ladle.stuff);
             } else if (ladle.place == POT) {
                 books.pot.addAll(ladle.stuff);
             } else if (ladle.place == FURNACE) {
@@ -760,26 +764,19 @@ public final class HotAisle {
             return true;
         }
 
-        private boolean canPour(Ladle ladle) {
+        private static boolean canPour(Ladle ladle, Vessel vessel, int coming) {
             switch (ladle.sort) {
-                case MATTE: return hasRoomFor(vesselAt(ladle.place), ladle.stuffThatComesOut());
+                case MATTE: return vessel != null && vessel.stuff.all() + coming <= VESSEL_HOLDS;
                 case SLAG_SORT: return ladle.place == POT || ladle.place == FURNACE;
                 case METAL: return ladle.place == WHEEL;
                 default: return false;
             }
         }
 
-        private static boolean hasRoomFor(Vessel vessel, int coming) {
-            return vessel != null && vessel.stuff.all() + coming <= VESSEL_HOLDS;
-        }
-
-        private boolean skim(Ladle ladle) {
-            Vessel vessel = vesselAt(ladle.place);
-            if (vessel == null || ladle.sort != EMPTY && ladle.sort != SLAG_SORT) {
-                return false;
-            }
+        private static boolean skim(Ladle ladle, Vessel vessel) {
+            boolean takesSlag = ladle.sort == EMPTY || ladle.sort == SLAG_SORT;
             int n = Math.min(vessel.stuff.slag, ladle.room());
-            if (n < 1) {
+            if (!takesSlag || n < 1) {
                 return false;
             }
             vessel.stuff.slag -= n;
@@ -788,9 +785,8 @@ public final class HotAisle {
             return true;
         }
 
-        private boolean draw(Ladle ladle) {
-            Vessel vessel = vesselAt(ladle.place);
-            if (vessel == null || vessel.isBlown || !vessel.holdsCopperAlone() || ladle.sort != EMPTY) {
+        private static boolean draw(Ladle ladle, Vessel vessel) {
+            if (vessel.isBlown || !vessel.holdsCopperAlone() || ladle.sort != EMPTY) {
                 return false;
             }
             int n = Math.min(vessel.stuff.copper, ladle.room());

@@ -4,6 +4,7 @@ public final class BackTest {
         Check.same("back() of a new one", new HotAisle().back(), HotAisle.NO);
         latestFirst();
         allAsItWas();
+        metalAndSlagToo();
         ordersToo();
         Check.end();
     }
@@ -36,7 +37,10 @@ public final class BackTest {
         x.limit(5);
         Rig.give(x, 0, "skim 2 pour");
         Rig.give(x, 1, "10 take 15 set");
-        x.minutes(14);
+        x.minutes(8);
+        x.limit(6);
+        x.minutes(1);
+        Check.same("count(2)", x.count(2), 6);
         int[] second = Rig.answers(x);
         x.keep();
         x.fed(false);
@@ -51,6 +55,32 @@ public final class BackTest {
         compare("second", x, 2, second);
         compare("first", x, 1, first);
         Check.same("back()", x.back(), HotAisle.NO);
+    }
+
+    /** Behind what is kept: copper at the wheel, slag given back, a skull cleaned off, a full furnace, a stopped vessel. */
+    private static void metalAndSlagToo() {
+        HotAisle x = Rig.withMetal();
+        int[] first = Rig.answers(x);
+        x.keep();
+        Rig.done(x, 1, "15 pour");
+        x.minutes(2);
+        int[] second = Rig.answers(x);
+        x.keep();
+        Rig.done(x, 0, "clean 0 tap 4 pour");
+        x.blow(0, true);
+        x.minutes(1);
+        x.cold(0, 50);
+        Rig.done(x, 0, "skim 0 pour 1");
+        Check.that("slag is given back", x.book(6, 4) > 0);
+        Rig.feed(x, 60);
+        Rig.feed(x, 20);
+        Check.that("the furnace is full", x.count(5) > 0);
+        Check.that("the vessel is stopped", x.vessel(0, 7) > 0);
+        Check.that("anodes are cast", x.count(3) > 2);
+        compare("second", x, 2, second);
+        compare("first", x, 1, first);
+        x.minutes(2);
+        Rig.booked(x, 4, 0, 0, 0, 0);
     }
 
     private static void compare(String name, HotAisle x, int kept, int[] due) {

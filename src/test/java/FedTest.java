@@ -5,6 +5,7 @@ public final class FedTest {
         feedsOnlyWhileTold();
         feedsUpToSixHundred();
         feedsUpToSixHundredExactly();
+        feedsNotToSixHundredAndOne();
         Check.end();
     }
 
@@ -70,6 +71,20 @@ public final class FedTest {
         x.minutes(2);
         Check.same("all of the furnace", all(x), 600);
         Check.same("count(5) above 600", x.count(5), 2);
+    }
+
+    /** Two ladles of 100 leave 340 of 540; 28 minutes make them 592, and nine more would be 601. */
+    private static void feedsNotToSixHundredAndOne() {
+        HotAisle x = new HotAisle();
+        Rig.feed(x, 60);
+        Rig.done(x, 0, "1 take 0 tap 1 set");
+        Rig.done(x, 0, "6 take 0 tap");
+        Rig.feed(x, 28);
+        Check.same("all of the furnace", all(x), 592);
+        x.fed(true);
+        x.minutes(1);
+        Check.same("all of the furnace", all(x), 592);
+        Check.same("count(5) at 592", x.count(5), 1);
     }
 
     private static int all(HotAisle x) {

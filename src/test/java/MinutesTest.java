@@ -106,6 +106,22 @@ public final class MinutesTest {
         Check.same("count(4)", x.count(4), 3);
         Check.same("count(3)", x.count(3), 0);
         castsWhatIsPoured();
+        castsToTheLast();
+    }
+
+    /** 40 of 42 copper come out at the wheel: eight anodes, with five copper for the last. */
+    private static void castsToTheLast() {
+        HotAisle x = Rig.withCopperAlone();
+        x.cold(0, 4);
+        Rig.done(x, 1, "6 take 4 draw 15 pour");
+        int starved = x.count(4);
+        x.minutes(8);
+        Check.same("count(3)", x.count(3), 8);
+        Check.same("count(4)", x.count(4), starved);
+        x.minutes(1);
+        Check.same("count(3) with no copper", x.count(3), 8);
+        Check.same("count(4) with no copper", x.count(4), starved + 1);
+        Rig.booked(x, 4, 40, 0, 0, 0);
     }
 
     /** 36 of 38 copper come out at the wheel. */

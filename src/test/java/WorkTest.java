@@ -256,6 +256,7 @@ public final class WorkTest {
         Rig.done(x, 0, "1 set 4");
         Rig.refused(x, 0, "skim");
         skimWithMatte();
+        skimTheLastOne();
     }
 
     private static void skimWithMatte() {
@@ -273,6 +274,24 @@ public final class WorkTest {
         Rig.done(x, 0, "0 tap");
         x.keep();
         Rig.refused(x, 1, "skim");
+    }
+
+    /** A vessel of 2, 3, 2 has 4 slag behind a minute, and one more behind the next. */
+    private static void skimTheLastOne() {
+        HotAisle x = new HotAisle();
+        Rig.feed(x, 1);
+        Rig.done(x, 0, "1 take 0 tap 4 pour");
+        x.blow(0, true);
+        x.minutes(1);
+        x.blow(0, false);
+        Rig.done(x, 0, "skim");
+        Rig.stuffOfLadle(x, 0, 4, 0, 0, 0, 4);
+        x.blow(0, true);
+        x.minutes(1);
+        Rig.stuffOfVessel(x, 0, 0, 0, 0, 1);
+        Rig.done(x, 0, "skim");
+        Rig.stuffOfLadle(x, 0, 4, 0, 0, 0, 5);
+        Rig.stuffOfVessel(x, 0, 0, 0, 0, 0);
     }
 
     /** The iron of two ladles and much copper make more slag than the 96 that the ladle may. */
@@ -321,6 +340,7 @@ public final class WorkTest {
         Rig.stuffOfVessel(x, 0, 0, 0, 0, 0);
         Check.same("ladle(0, 2)", x.ladle(0, 2), 3);
         drawAsMuchAsMay();
+        drawTheLastOne();
     }
 
     private static void drawAsMuchAsMay() {
@@ -344,6 +364,25 @@ public final class WorkTest {
         Rig.done(x, 1, "3 take 4");
         Rig.refused(x, 1, "skim");
         Rig.refused(x, 1, "pour");
+    }
+
+    /** Of 97 copper, 96 come; the one that is left grows cold, and can be drawn too. */
+    private static void drawTheLastOne() {
+        HotAisle x = Rig.withCopperAlone();
+        x.cold(0, 50);
+        x.cold(0, 9);
+        Rig.done(x, 0, "4 draw 3");
+        Rig.stuffOfVessel(x, 0, 1, 0, 0, 0);
+        int heat = x.vessel(0, 0);
+        x.minutes(1);
+        Check.same("vessel(0, 0) with one copper", x.vessel(0, 0), heat - 8);
+        Rig.done(x, 0, "0");
+        Rig.done(x, 1, "6 take 4 draw");
+        Rig.stuffOfLadle(x, 1, 4, 1, 0, 0, 0);
+        Rig.stuffOfVessel(x, 0, 0, 0, 0, 0);
+        heat = x.vessel(0, 0);
+        Rig.refused(x, 1, "draw");
+        Check.same("vessel(0, 0) with none", x.vessel(0, 0), heat);
     }
 
     private static void drawOnlyCopperAlone() {
