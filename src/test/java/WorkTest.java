@@ -10,6 +10,7 @@ public final class WorkTest {
         pourMatteOnlyWhereItMay();
         pourMatteUpToThreeHundred();
         pourNothingButTheSkull();
+        pourOneIntoAnEmptiedVessel();
         pourSlag();
         pourMetal();
         skim();
@@ -193,6 +194,26 @@ public final class WorkTest {
         Rig.stuffOfLadle(x, 0, 8, 5, 0, 0, 0);
         Check.same("ladle(0, 2)", x.ladle(0, 2), 0);
         x.back();
+    }
+
+    /** With a skull of 4, a tap of 96 leaves 3 of 99; 2 of them freeze, and the vessel's own heat counts for nothing. */
+    private static void pourOneIntoAnEmptiedVessel() {
+        HotAisle x = new HotAisle();
+        Rig.feed(x, 1);
+        Rig.done(x, 0, "1 take 0 tap 4 pour");
+        x.blow(0, true);
+        x.minutes(2);
+        x.blow(0, false);
+        Rig.done(x, 0, "skim 2 pour 0");
+        Rig.stuffOfVessel(x, 0, 0, 0, 0, 0);
+        Check.same("vessel(0, 0)", x.vessel(0, 0), 1150 + 20 - 8 + 2 - 8 - 8);
+        Rig.stuffOfLadle(x, 0, 8, 2, 0, 0, 2);
+        Rig.feed(x, 11);
+        Rig.done(x, 0, "tap 8 pour 0 tap");
+        Rig.stuffOfLadle(x, 0, 4, 2, 1, 0, 0);
+        Rig.done(x, 0, "4 pour");
+        Rig.stuffOfVessel(x, 0, 0, 1, 0, 0);
+        Check.same("vessel(0, 0)", x.vessel(0, 0), 1150);
     }
 
     private static void pourSlag() {
