@@ -1,14 +1,34 @@
 /** Promise 16: back. */
 public final class BackTest {
     public static void main(String[] args) {
-        Check.same("back() of a new one", new HotAisle().back(), HotAisle.NO);
+        noneIsKept();
         latestFirst();
+        keptNoMore();
         allAsItWas();
         metalAndSlagToo();
         ordersToo();
         Check.end();
     }
 
+    /** "NO: none is." */
+    private static void noneIsKept() {
+        Refusal.ofCall("back()", HotAisle::new, HotAisle::back, HotAisle.NO);
+        Refusal.ofCall("back()", Rig::withMetal, HotAisle::back, HotAisle.NO);
+        Refusal.ofCall("back(), the third", BackTest::backTwice, HotAisle::back, HotAisle.NO);
+    }
+
+    /** All that were kept came back, and then much was done. */
+    private static HotAisle backTwice() {
+        HotAisle x = Rig.busy();
+        x.back();
+        x.back();
+        Rig.done(x, 0, "clean 3 set");
+        x.fed(true);
+        x.minutes(5);
+        return x;
+    }
+
+    /** "the latest first"; "MINUTES then". */
     private static void latestFirst() {
         HotAisle x = new HotAisle();
         for (int i = 0; i < 8; i++) {
@@ -27,21 +47,33 @@ public final class BackTest {
         Check.same("count(0)", x.count(0), 1);
     }
 
-    /** Two states are kept, much is done between and behind them, and each comes back whole. */
-    private static void allAsItWas() {
-        HotAisle x = Rig.withFullVessel();
-        x.fed(true);
-        int[] first = Rig.answers(x);
+    /** "which is kept no more": what is kept behind a back() is the latest one then. */
+    private static void keptNoMore() {
+        HotAisle x = new HotAisle();
+        x.minutes(3);
         x.keep();
-        x.blow(0, true);
-        x.limit(5);
-        Rig.give(x, 0, "skim 2 pour");
-        Rig.give(x, 1, "10 take 15 set");
-        x.minutes(8);
-        x.limit(6);
+        x.minutes(4);
+        x.keep();
+        Check.same("back()", x.back(), 7);
+        x.minutes(2);
+        Check.same("keep()", x.keep(), 2);
         x.minutes(1);
-        Check.same("count(2)", x.count(2), 6);
-        int[] second = Rig.answers(x);
+        Check.same("back()", x.back(), 9);
+        Check.same("back()", x.back(), 3);
+        Check.same("back()", x.back(), HotAisle.NO);
+        // A state of no minutes is one too.
+        x = new HotAisle();
+        x.keep();
+        x.minutes(1);
+        Check.same("back()", x.back(), 0);
+        Check.same("back()", x.back(), HotAisle.NO);
+    }
+
+    /** "All is as it was kept last": two states are kept, much is done between and behind them, and each comes back whole. */
+    private static void allAsItWas() {
+        HotAisle x = fedVessel();
+        x.keep();
+        blowAndCarry(x);
         x.keep();
         x.fed(false);
         x.limit(0);
@@ -52,19 +84,36 @@ public final class BackTest {
         Rig.give(x, 0, "1 clean 0 tap 8 pour");
         x.minutes(60);
         x.minutes(60);
+        HotAisle second = fedVessel();
+        blowAndCarry(second);
         compare("second", x, 2, second);
-        compare("first", x, 1, first);
+        compare("first", x, 1, fedVessel());
         Check.same("back()", x.back(), HotAisle.NO);
+    }
+
+    private static HotAisle fedVessel() {
+        HotAisle x = Rig.withFullVessel();
+        x.fed(true);
+        return x;
+    }
+
+    private static void blowAndCarry(HotAisle x) {
+        x.blow(0, true);
+        x.limit(5);
+        Rig.give(x, 0, "skim 2 pour");
+        Rig.give(x, 1, "10 take 15 set");
+        x.minutes(8);
+        x.limit(6);
+        x.minutes(1);
+        Check.same("count(2)", x.count(2), 6);
+        Check.same("vessel(0, 6)", x.vessel(0, 6), 2);
     }
 
     /** Behind what is kept: copper at the wheel, slag given back, a skull cleaned off, a full furnace, a stopped vessel. */
     private static void metalAndSlagToo() {
         HotAisle x = Rig.withMetal();
-        int[] first = Rig.answers(x);
         x.keep();
-        Rig.done(x, 1, "15 pour");
-        x.minutes(2);
-        int[] second = Rig.answers(x);
+        castTwo(x);
         x.keep();
         Rig.done(x, 0, "clean 0 tap 4 pour");
         x.blow(0, true);
@@ -77,18 +126,29 @@ public final class BackTest {
         Check.that("the furnace is full", x.count(5) > 0);
         Check.that("the vessel is stopped", x.vessel(0, 7) > 0);
         Check.that("anodes are cast", x.count(3) > 2);
+        HotAisle second = Rig.withMetal();
+        castTwo(second);
         compare("second", x, 2, second);
-        compare("first", x, 1, first);
+        compare("first", x, 1, Rig.withMetal());
         x.minutes(2);
         Rig.booked(x, 4, 0, 0, 0, 0);
     }
 
-    private static void compare(String name, HotAisle x, int kept, int[] due) {
+    private static void castTwo(HotAisle x) {
+        Rig.done(x, 1, "15 pour");
+        x.minutes(2);
+        Check.same("count(3)", x.count(3), 2);
+    }
+
+    /** All answers are those of an aisle that has come to the same state, but for the states kept. */
+    private static void compare(String name, HotAisle x, int kept, HotAisle alike) {
         Check.same("count(7)", x.count(7), kept);
-        x.back();
+        Check.same("back()", x.back(), alike.count(0));
         int[] now = Rig.answers(x);
+        int[] due = Rig.answers(alike);
         for (int i = 0; i < due.length; i++) {
-            Check.same("answer " + i + " of the " + name + " state", now[i], due[i]);
+            // count(7) is the third from the end.
+            Check.same("answer " + i + " of the " + name + " state", now[i], i == due.length - 3 ? kept - 1 : due[i]);
         }
     }
 

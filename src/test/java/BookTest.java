@@ -1,26 +1,26 @@
 /** Promise 13: book. */
 public final class BookTest {
     public static void main(String[] args) {
-        wrong();
+        beyond();
         throughTheAisle();
         givenBackAndCleaned();
         Check.end();
     }
 
-    private static void wrong() {
-        HotAisle x = new HotAisle();
-        int[] bad = {-1, 11, 12, Integer.MIN_VALUE, Integer.MAX_VALUE};
-        for (int at : bad) {
-            Check.same("book(" + at + ", 1)", x.book(at, 1), HotAisle.BAD);
+    /** "STUFF s (1 to 4)"; "BAD." */
+    private static void beyond() {
+        for (int i = 1; i <= 4; i++) {
+            int s = i;
+            Refusal.bad("book(#, " + s + ")", 0, 10, (x, n) -> x.book(n, s));
         }
-        int[] badStuff = {0, -1, 5, Integer.MIN_VALUE, Integer.MAX_VALUE};
-        for (int at = 0; at < 11; at++) {
-            for (int s : badStuff) {
-                Check.same("book(" + at + ", " + s + ")", x.book(at, s), HotAisle.BAD);
-            }
+        for (int i = 0; i <= 10; i++) {
+            int at = i;
+            Refusal.bad("book(" + at + ", #)", 1, 4, (x, n) -> x.book(at, n));
         }
+        Refusal.ofCall("book(11, 0)", Rig::busy, x -> x.book(11, 0), HotAisle.BAD);
     }
 
+    /** "0 in THE FURNACE, 1 in VESSELS, 2 in LADLES, 3 in SKULLS, 4 at THE WHEEL (ANODES too), 5 in THE POT, .." */
     private static void throughTheAisle() {
         HotAisle x = new HotAisle();
         Rig.feed(x, 12);
@@ -49,12 +49,14 @@ public final class BookTest {
         Rig.booked(x, 0, 0, 0, 0, 0);
         Rig.booked(x, 1, 2, 3, 1, 0);
         Rig.booked(x, 3, 4, 0, 0, 0);
+        Rig.booked(x, 4, 36, 0, 0, 0);
         Rig.booked(x, 7, 2, 0, 0, 2);
         Check.same("cold(0, 50)", x.cold(0, 50), 1150 * 6 / 56);
         Rig.booked(x, 1, 52, 3, 1, 0);
         Rig.booked(x, 8, 98, 36, 24, 0);
     }
 
+    /** "6 given back to THE FURNACE (SLAG; it does not fill it), 7 cleaned off". */
     private static void givenBackAndCleaned() {
         HotAisle x = Rig.withFullVessel();
         x.blow(0, true);

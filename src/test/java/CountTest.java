@@ -1,11 +1,20 @@
 /** Promise 14: count. */
 public final class CountTest {
     public static void main(String[] args) {
+        beyond();
+        each();
+        gasOfTheLatestMinute();
+        statesLimitAndFed();
+        Check.end();
+    }
+
+    /** "BAD." */
+    private static void beyond() {
+        Refusal.bad("count(#)", 0, 9, HotAisle::count);
+    }
+
+    private static void each() {
         HotAisle x = Rig.withMetal();
-        int[] bad = {-1, 10, 11, Integer.MIN_VALUE, Integer.MAX_VALUE};
-        for (int what : bad) {
-            Check.same("count(" + what + ")", x.count(what), HotAisle.BAD);
-        }
         // 12 fed; 10 and 1 with 6 orders to the vessel; 10 blown; 6 to the pot and back; 9 for crane 1.
         int passed = x.count(0);
         Check.same("count(0)", passed, 12 + 10 + 10 + 6 + 9);
@@ -18,10 +27,9 @@ public final class CountTest {
         Check.same("count(7)", x.count(7), 0);
         Check.same("count(8)", x.count(8), 12);
         Check.same("count(9)", x.count(9), 0);
-        gasOfTheLatestMinute();
-        Check.end();
     }
 
+    /** "1 GAS in all, 2 GAS of the latest MINUTE". */
     private static void gasOfTheLatestMinute() {
         HotAisle x = Rig.withFullVessel();
         x.blow(0, true);
@@ -33,5 +41,21 @@ public final class CountTest {
             Check.same("count(2)", x.count(2), due);
             Check.same("count(1)", x.count(1), inAll);
         }
+    }
+
+    /** "7 STATES kept, 8 THE LIMIT, 9 1 fed". */
+    private static void statesLimitAndFed() {
+        HotAisle x = new HotAisle();
+        x.limit(30);
+        x.keep();
+        x.keep();
+        x.fed(true);
+        Check.same("count(7)", x.count(7), 2);
+        Check.same("count(8)", x.count(8), 30);
+        Check.same("count(9)", x.count(9), 1);
+        x.back();
+        Check.same("count(7)", x.count(7), 1);
+        Check.same("count(8)", x.count(8), 30);
+        Check.same("count(9)", x.count(9), 0);
     }
 }

@@ -1,14 +1,17 @@
-/** Promise 2: fed, and what a minute feeds. */
+/** Promise 2: fed, and the first step of a minute. */
 public final class FedTest {
     public static void main(String[] args) {
         answersWhatWas();
         feedsOnlyWhileTold();
         feedsUpToSixHundred();
-        feedsUpToSixHundredExactly();
         feedsNotToSixHundredAndOne();
+        nothingOfItWhenFull();
+        notFullWhileNotFed();
+        fedAgainWhenThereIsRoom();
         Check.end();
     }
 
+    /** "THE FURNACE is fed, or not: what was (1, 0)." */
     private static void answersWhatWas() {
         HotAisle x = new HotAisle();
         Check.same("fed(false)", x.fed(false), 0);
@@ -21,6 +24,7 @@ public final class FedTest {
         Rig.booked(x, 0, 0, 0, 0, 0);
     }
 
+    /** "THE FURNACE is fed, if that is told: 4 COPPER, 3 IRON, 2 SULPHUR". */
     private static void feedsOnlyWhileTold() {
         HotAisle x = new HotAisle();
         x.minutes(2);
@@ -35,27 +39,10 @@ public final class FedTest {
         x.minutes(5);
         Rig.booked(x, 0, 28, 21, 14, 0);
         Rig.booked(x, 8, 28, 21, 14, 0);
-        Check.same("count(5)", x.count(5), 0);
     }
 
+    /** "if that leaves it at most 600": three ladles of 100 leave 240 of 540; 39 minutes make them 591, and nine more are 600. */
     private static void feedsUpToSixHundred() {
-        HotAisle x = new HotAisle();
-        x.fed(true);
-        x.minutes(60);
-        x.minutes(6);
-        Rig.booked(x, 0, 264, 198, 132, 0);
-        Check.same("count(5) at 594", x.count(5), 0);
-        x.minutes(1);
-        Check.same("count(5) with no room for nine", x.count(5), 1);
-        Rig.booked(x, 0, 264, 198, 132, 0);
-        Rig.booked(x, 8, 264, 198, 132, 0);
-        x.fed(false);
-        x.minutes(3);
-        Check.same("count(5) while not fed", x.count(5), 1);
-    }
-
-    /** Three ladles of 100 leave 240 of 540; 39 minutes make them 591, and nine more are 600. */
-    private static void feedsUpToSixHundredExactly() {
         HotAisle x = new HotAisle();
         Rig.feed(x, 60);
         Rig.done(x, 0, "1 take 0 tap 1 set");
@@ -85,6 +72,47 @@ public final class FedTest {
         x.minutes(1);
         Check.same("all of the furnace", all(x), 592);
         Check.same("count(5) at 592", x.count(5), 1);
+    }
+
+    /** "else nothing (FULL MINUTES are counted)": at 594 not even the six for which there is room. */
+    private static void nothingOfItWhenFull() {
+        HotAisle x = fed66Minutes();
+        Rig.booked(x, 0, 264, 198, 132, 0);
+        Check.same("count(5) at 594", x.count(5), 0);
+        x.minutes(1);
+        Rig.booked(x, 0, 264, 198, 132, 0);
+        Rig.booked(x, 8, 264, 198, 132, 0);
+        Check.same("count(5)", x.count(5), 1);
+        x.minutes(3);
+        Check.same("count(5)", x.count(5), 4);
+    }
+
+    /** "if that is told": a full furnace that is not fed has no FULL MINUTE. */
+    private static void notFullWhileNotFed() {
+        HotAisle x = fed66Minutes();
+        x.fed(false);
+        x.minutes(3);
+        Check.same("count(5)", x.count(5), 0);
+    }
+
+    /** A ladle of 100 makes room for eleven minutes: 494 and 99 are 593. */
+    private static void fedAgainWhenThereIsRoom() {
+        HotAisle x = fed66Minutes();
+        x.fed(false);
+        Rig.done(x, 0, "1 take 0 tap");
+        x.fed(true);
+        x.minutes(12);
+        Check.same("all of the furnace", all(x), 593);
+        Check.same("count(5)", x.count(5), 1);
+        Check.same("all that came in", x.book(8, 1) + x.book(8, 2) + x.book(8, 3), 693);
+    }
+
+    private static HotAisle fed66Minutes() {
+        HotAisle x = new HotAisle();
+        x.fed(true);
+        x.minutes(60);
+        x.minutes(6);
+        return x;
     }
 
     private static int all(HotAisle x) {

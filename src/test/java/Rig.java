@@ -27,6 +27,21 @@ final class Rig {
         return passed;
     }
 
+    /** The same for an aisle that is just made. */
+    static HotAisle then(HotAisle x, int crane, String orders) {
+        done(x, crane, orders);
+        return x;
+    }
+
+    /** Gives a crane an order and sees it done in the next minute. */
+    static void doneAtOnce(String name, HotAisle x, int crane, String order) {
+        int waits = x.crane(crane, 4);
+        give(x, crane, order);
+        Check.same(order + " " + name + ": done", x.minutes(1), 1);
+        Check.same(order + " " + name + ": orders left", x.crane(crane, 2), 0);
+        Check.same(order + " " + name + ": waits", x.crane(crane, 4), waits);
+    }
+
     /** Gives a crane an order that can't be carried out, sees it wait two minutes, and drops it. */
     static void refused(HotAisle x, int crane, String order) {
         int waits = x.crane(crane, 4);
@@ -41,6 +56,67 @@ final class Rig {
         x.fed(true);
         x.minutes(minutes);
         x.fed(false);
+    }
+
+    /**
+     * What is fed in some minutes (11 at most), poured into vessel 0 or 1: 4 copper (less 2), 3 iron, 2 sulphur for
+     * each, at 1150. Crane 0 is over it with ladle 0, empty, 2 copper in its skull; the furnace is empty.
+     */
+    static HotAisle poured(int minutes, int vessel) {
+        HotAisle x = new HotAisle();
+        feed(x, minutes);
+        done(x, 0, "1 take 0 tap " + (4 * vessel + 4) + " pour");
+        return x;
+    }
+
+    /** Vessel 0 at 1022 and vessel 1 at 1150, with 22 copper, 18 iron, 12 sulphur each; crane 0 is over vessel 1. */
+    static HotAisle withTwoVessels() {
+        HotAisle x = poured(6, 0);
+        x.fed(true);
+        done(x, 0, "0");
+        x.minutes(1);
+        x.fed(false);
+        done(x, 0, "tap 8 pour");
+        return x;
+    }
+
+    /** Vessel 0 with one iron at 1150, behind a first filling that was skimmed off; crane 0 is over it with ladle 0, empty. */
+    static HotAisle withOneIron() {
+        HotAisle x = poured(1, 0);
+        x.blow(0, true);
+        x.minutes(2);
+        x.blow(0, false);
+        done(x, 0, "skim 2 pour 0");
+        feed(x, 11);
+        done(x, 0, "tap 8 pour 0 tap");
+        stuffOfLadle(x, 0, 4, 2, 1, 0, 0);
+        done(x, 0, "4 pour");
+        stuffOfVessel(x, 0, 0, 1, 0, 0);
+        return x;
+    }
+
+    /** One copper is in the furnace, 43, 36, 24 are in vessel 0; crane 0 at 0 with ladle 0, empty, 4 copper in its skull. */
+    static HotAisle withOneInTheFurnace() {
+        HotAisle x = poured(1, 0);
+        done(x, 0, "0");
+        feed(x, 11);
+        done(x, 0, "tap 4 pour 0");
+        booked(x, 0, 1, 0, 0, 0);
+        return x;
+    }
+
+    /** Vessel 0 with so much copper (1 to 51) alone; crane 0 at 1 with ladle 0, empty, no skull; the furnace is empty. */
+    static HotAisle withCopper(int copper) {
+        HotAisle x = poured(1, 0);
+        x.blow(0, true);
+        x.minutes(1);
+        x.blow(0, false);
+        done(x, 0, "skim 2 pour 1 clean");
+        if (copper > 1) {
+            x.cold(0, copper - 1);
+        }
+        stuffOfVessel(x, 0, copper, 0, 0, 0);
+        return x;
     }
 
     /** Vessel 0 with 42 copper, 33 iron, 23 sulphur at 1150; crane 0 is over it with ladle 0, empty, 2 copper in its skull; 4, 3, 1 in the furnace. */
@@ -68,6 +144,31 @@ final class Rig {
         return x;
     }
 
+    /** All is under way: fed, blown, a low limit, eight orders and five, copper at the wheel, two states kept. */
+    static HotAisle busy() {
+        HotAisle x = withMetal();
+        done(x, 1, "15 pour");
+        x.keep();
+        feed(x, 10);
+        done(x, 0, "0 tap 4 pour");
+        x.limit(2);
+        x.blow(0, true);
+        x.fed(true);
+        x.minutes(2);
+        x.keep();
+        give(x, 0, "skim 2 pour 1 clean 6 5 set");
+        give(x, 1, "13 set 14 take 15");
+        return x;
+    }
+
+    /** The same, with copper added to a vessel. */
+    static HotAisle cooled(HotAisle x, int vessel, int... amounts) {
+        for (int k : amounts) {
+            Check.that("room for " + k, x.cold(vessel, k) >= 0);
+        }
+        return x;
+    }
+
     static void stuffOfVessel(HotAisle x, int vessel, int copper, int iron, int sulphur, int slag) {
         Check.same("copper in vessel " + vessel, x.vessel(vessel, 2), copper);
         Check.same("iron in vessel " + vessel, x.vessel(vessel, 3), iron);
@@ -88,6 +189,11 @@ final class Rig {
         Check.same("book(" + at + ", 2)", x.book(at, 2), iron);
         Check.same("book(" + at + ", 3)", x.book(at, 3), sulphur);
         Check.same("book(" + at + ", 4)", x.book(at, 4), slag);
+    }
+
+    /** Where answers() has the waits of a crane. */
+    static int indexOfWaits(int crane) {
+        return crane * 5 + 4;
     }
 
     /** Every answer that an aisle gives without a change: 132 calls. */

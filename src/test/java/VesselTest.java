@@ -1,22 +1,23 @@
 /** Promise 12: vessel. */
 public final class VesselTest {
     public static void main(String[] args) {
-        HotAisle x = new HotAisle();
-        int[] bad = {-1, 3, Integer.MIN_VALUE, Integer.MAX_VALUE};
-        for (int vessel : bad) {
-            Check.same("vessel(" + vessel + ", 0)", x.vessel(vessel, 0), HotAisle.BAD);
-        }
-        int[] badOnes = {-1, 8, 9, Integer.MIN_VALUE, Integer.MAX_VALUE};
-        for (int vessel = 0; vessel < 3; vessel++) {
-            for (int what : badOnes) {
-                Check.same("vessel(" + vessel + ", " + what + ")", x.vessel(vessel, what), HotAisle.BAD);
-            }
-        }
+        beyond();
         oneOfThree();
         Check.end();
     }
 
-    /** Vessel 2, at 12, alone is filled, blown, held and stopped. */
+    /** "BAD." */
+    private static void beyond() {
+        for (int i = 0; i < 8; i++) {
+            int what = i;
+            Refusal.bad("vessel(#, " + what + ")", 0, 2, (x, n) -> x.vessel(n, what));
+        }
+        Refusal.bad("vessel(0, #)", 0, 7, (x, n) -> x.vessel(0, n));
+        Refusal.bad("vessel(2, #)", 0, 7, (x, n) -> x.vessel(2, n));
+        Refusal.ofCall("vessel(3, 8)", Rig::busy, x -> x.vessel(3, 8), HotAisle.BAD);
+    }
+
+    /** "0 HEAT, 1 BLOWN (1, 0), 1 + s how much of STUFF s, 6 HELD, 7 STOPPED": VESSEL 2, at 12, alone. */
     private static void oneOfThree() {
         HotAisle x = new HotAisle();
         Rig.feed(x, 12);
