@@ -60,7 +60,7 @@ public final class ColdTest {
         Refusal.ofCall("cold(2, 50)", Rig::busy, x -> x.cold(2, 50), HotAisle.NO);
     }
 
-    /** "NO: it would hold too much": 300 is not too much, 301 is. */
+    /** "VESSELS hold .. at most 300 together"; "NO: it would hold too much": 300 is not too much, 301 is. */
     private static void upToThreeHundred() {
         HotAisle x = holding299();
         int heat = x.vessel(0, 0);

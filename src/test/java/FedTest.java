@@ -8,6 +8,8 @@ public final class FedTest {
         nothingOfItWhenFull();
         notFullWhileNotFed();
         fedAgainWhenThereIsRoom();
+        fedBeforeTheCranes();
+        fullBeforeTheCranes();
         Check.end();
     }
 
@@ -41,7 +43,10 @@ public final class FedTest {
         Rig.booked(x, 8, 28, 21, 14, 0);
     }
 
-    /** "if that leaves it at most 600": three ladles of 100 leave 240 of 540; 39 minutes make them 591, and nine more are 600. */
+    /**
+     * "THE FURNACE holds COPPER, IRON, SULPHUR, at most 600 together"; "if that leaves it at most 600": three
+     * ladles of 100 leave 240 of 540; 39 minutes make them 591, and nine more are 600.
+     */
     private static void feedsUpToSixHundred() {
         HotAisle x = new HotAisle();
         Rig.feed(x, 60);
@@ -105,6 +110,29 @@ public final class FedTest {
         Check.same("all of the furnace", all(x), 593);
         Check.same("count(5)", x.count(5), 1);
         Check.same("all that came in", x.book(8, 1) + x.book(8, 2) + x.book(8, 3), 693);
+    }
+
+    /** "A MINUTE, in this order": what is fed in a minute can be tapped in it. */
+    private static void fedBeforeTheCranes() {
+        HotAisle x = Rig.then(new HotAisle(), 0, "1 take 0");
+        x.fed(true);
+        Rig.doneAtOnce("of what is just fed", x, 0, "tap");
+        Rig.stuffOfLadle(x, 0, 4, 4, 3, 2, 0);
+        Rig.booked(x, 0, 0, 0, 0, 0);
+    }
+
+    /** A tap makes room from the next minute on. */
+    private static void fullBeforeTheCranes() {
+        HotAisle x = fed66Minutes();
+        x.fed(false);
+        Rig.done(x, 0, "1 take 0");
+        x.fed(true);
+        Rig.doneAtOnce("of a full furnace", x, 0, "tap");
+        Check.same("count(5)", x.count(5), 1);
+        Check.same("all of the furnace", all(x), 494);
+        x.minutes(1);
+        Check.same("count(5)", x.count(5), 1);
+        Check.same("all of the furnace", all(x), 503);
     }
 
     private static HotAisle fed66Minutes() {

@@ -7,7 +7,7 @@ public final class LimitTest {
         Check.end();
     }
 
-    /** "THE LIMIT: what it was." */
+    /** "THE LIMIT ..: what it was." */
     private static void answersWhatWas() {
         HotAisle x = new HotAisle();
         Check.same("limit(1)", x.limit(1), 12);

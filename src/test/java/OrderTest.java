@@ -13,7 +13,7 @@ public final class OrderTest {
         Check.end();
     }
 
-    /** "An ORDER behind those of a CRANE: how many": CRANES 0 and 1, ORDERS 0 to 7, PLACES 0 to 15. */
+    /** "An ORDER behind those of a CRANE ..: how many": CRANES 0 and 1, ORDERS 0 to 7, PLACES 0 to 15. */
     private static void firstAndLastOfEach() {
         HotAisle x = new HotAisle();
         for (int crane = 0; crane < 2; crane++) {

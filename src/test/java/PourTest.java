@@ -12,6 +12,7 @@ public final class PourTest {
         upToThreeHundred();
         notTo301();
         nothingComes();
+        nothingComesIntoAnEmptiedOne();
         nothingComesIntoAFullOne();
         blownToo();
         slagToThePot();
@@ -101,7 +102,7 @@ public final class PourTest {
         Check.same("vessel(0, 0)", x.vessel(0, 0), 1150);
     }
 
-    /** "(if it holds all that comes)": 206 and the 94 that come of 96. */
+    /** "VESSELS hold .. at most 300 together"; "(if it holds all that comes)": 206 and the 94 that come of 96. */
     private static void upToThreeHundred() {
         HotAisle x = with96Over(206);
         Rig.doneAtOnce("to 300", x, 0, "pour");
@@ -132,6 +133,25 @@ public final class PourTest {
         Check.same("blow(1, true)", x.blow(1, true), HotAisle.NO);
         Rig.stuffOfLadle(x, 0, 8, 5, 0, 0, 0);
         Check.same("ladle(0, 2)", x.ladle(0, 2), 0);
+    }
+
+    /** An emptied vessel keeps the heat that it had, though what it holds and what comes are both nothing. */
+    private static void nothingComesIntoAnEmptiedOne() {
+        HotAisle x = Rig.poured(1, 0);
+        x.blow(0, true);
+        x.minutes(2);
+        x.blow(0, false);
+        Rig.done(x, 0, "3 set 6 take 4 skim 6 set");
+        Rig.stuffOfVessel(x, 0, 0, 0, 0, 0);
+        int heat = x.vessel(0, 0);
+        Check.that("it is not the first heat", heat != 1150);
+        Rig.done(x, 0, "3 take 0");
+        Rig.feed(x, 11);
+        Rig.done(x, 0, "tap 8 pour 0 tap 4");
+        Rig.stuffOfLadle(x, 0, 4, 1, 0, 0, 0);
+        Rig.doneAtOnce("of one", x, 0, "pour");
+        Check.same("vessel(0, 0)", x.vessel(0, 0), heat);
+        Rig.stuffOfVessel(x, 0, 0, 0, 0, 0);
     }
 
     /** Nothing is not too much for one that holds 300. */

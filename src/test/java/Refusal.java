@@ -2,7 +2,7 @@ import java.util.function.Supplier;
 import java.util.function.ToIntFunction;
 
 /**
- * What is refused changes nothing. Each check makes two aisles alike and asks one of them alone. Then both must
+ * What is refused: "nothing changes then". Each check makes two aisles alike and asks one of them alone. Then both must
  * give the same answers, at once and later: what no call asks for (the orders behind the first one, the states
  * kept) shows later.
  */

@@ -119,7 +119,10 @@ final class Rig {
         return x;
     }
 
-    /** Vessel 0 with 42 copper, 33 iron, 23 sulphur at 1150; crane 0 is over it with ladle 0, empty, 2 copper in its skull; 4, 3, 1 in the furnace. */
+    /**
+     * Vessel 0 with 42 copper, 33 iron, 23 sulphur at 1150; crane 0 is over it with ladle 0, empty, 2 copper in its
+     * skull; 4, 3, 1 in the furnace.
+     */
     static HotAisle withFullVessel() {
         HotAisle x = new HotAisle();
         feed(x, 12);

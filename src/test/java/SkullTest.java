@@ -112,7 +112,10 @@ public final class SkullTest {
         Rig.booked(x, 0, 45, 34, 21, 0);
     }
 
-    /** "COPPER first, then IRON": a tap of 88 leaves 1 copper and 1 iron of 90, and both freeze. */
+    /**
+     * "COPPER first, then IRON": a tap of 88 leaves 1 copper and 1 iron of 90, and both freeze. No tap leaves
+     * sulphur with less than two of copper and iron, so that sulphur never freezes.
+     */
     private static void copperFirstThenIron() {
         HotAisle x = withSkull(12);
         Rig.feed(x, 10);

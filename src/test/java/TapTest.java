@@ -121,7 +121,11 @@ public final class TapTest {
         Rig.booked(x, 0, 113, 85, 54, 0);
     }
 
-    /** "if there is not so much SULPHUR, what lacks is IRON": of 44, 33, 22 there come 43.6 and 32.7, cut, and 23 sulphur are not there. */
+    /**
+     * "if there is not so much SULPHUR, what lacks is IRON": of 44, 33, 22 there come 43.6 and 32.7, cut, and 23
+     * sulphur are not there. Two cuts lack one unit at most, and some iron is always left for it, so that no
+     * COPPER ever comes for SULPHUR.
+     */
     private static void sulphurLacks() {
         HotAisle x = Rig.poured(1, 0);
         Rig.done(x, 0, "0");
