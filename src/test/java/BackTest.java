@@ -7,6 +7,8 @@ public final class BackTest {
         allAsItWas();
         metalAndSlagToo();
         ordersToo();
+        lastOfEightOrders();
+        lastVesselAndLastLadle();
         Check.end();
     }
 
@@ -170,5 +172,57 @@ public final class BackTest {
         x.until(50);
         Check.same("ladle(1, 0)", x.ladle(1, 0), 7);
         Check.same("crane(1, 0)", x.crane(1, 0), 13);
+    }
+
+    /** The eighth of the orders that are kept is a GO with a place of its own. */
+    private static void lastOfEightOrders() {
+        for (int crane = 0; crane < 2; crane++) {
+            HotAisle x = new HotAisle();
+            int place = 6 + crane;
+            Rig.give(x, crane, "5 5 5 5 5 5 5 " + place);
+            x.keep();
+            x.drop(crane);
+            Rig.give(x, crane, "9 9 9 9 9 9 9 set");
+            x.minutes(1);
+            Check.same("back()", x.back(), 0);
+            Check.same("crane(" + crane + ", 2)", x.crane(crane, 2), 8);
+            x.until(60);
+            Check.same("crane(" + crane + ", 0)", x.crane(crane, 0), place);
+            Check.same("count(6)", x.count(6), 8);
+        }
+    }
+
+    /** Crane 1 has ladle 3 over vessel 2: it is kept with matte in it, and when it is poured out. */
+    private static void lastVesselAndLastLadle() {
+        HotAisle x = matteOverVessel2();
+        x.keep();
+        pourAndBlow(x);
+        x.keep();
+        x.cold(2, 50);
+        x.minutes(3);
+        Rig.done(x, 1, "skim 14 set 11");
+        HotAisle second = matteOverVessel2();
+        pourAndBlow(second);
+        compare("second", x, 2, second);
+        compare("first", x, 1, matteOverVessel2());
+    }
+
+    private static HotAisle matteOverVessel2() {
+        HotAisle x = new HotAisle();
+        Rig.feed(x, 11);
+        Rig.done(x, 0, "0");
+        Rig.done(x, 1, "14 take 3 set 15");
+        Rig.done(x, 0, "3 take 0 tap 3 set 0");
+        Rig.done(x, 1, "3 take 12");
+        return x;
+    }
+
+    private static void pourAndBlow(HotAisle x) {
+        Rig.done(x, 1, "pour");
+        x.blow(2, true);
+        x.limit(0);
+        x.minutes(7);
+        Check.that("it is held", x.vessel(2, 6) > 0);
+        Rig.stuffOfLadle(x, 3, 8, 2, 0, 0, 0);
     }
 }

@@ -9,6 +9,8 @@ public final class BlowTest {
         notBlownThoughItHoldsNothing();
         whateverItsHeat();
         oneUnitIsEnough();
+        slagAloneIsEnough();
+        whatWasCountedStays();
         Check.end();
     }
 
@@ -83,6 +85,33 @@ public final class BlowTest {
         HotAisle x = Rig.withCopper(1);
         Check.same("blow(0, true)", x.blow(0, true), 0);
         Check.same("vessel(0, 1)", x.vessel(0, 1), 1);
+    }
+
+    /** It holds something, though no part of a minute can change it. */
+    private static void slagAloneIsEnough() {
+        HotAisle x = Rig.poured(1, 0);
+        x.blow(0, true);
+        x.minutes(2);
+        x.blow(0, false);
+        Rig.stuffOfVessel(x, 0, 0, 0, 0, 5);
+        Check.same("blow(0, true)", x.blow(0, true), 0);
+        Check.same("vessel(0, 1)", x.vessel(0, 1), 1);
+    }
+
+    /** HELD and STOPPED are counted ever, not since the vessel was blown. */
+    private static void whatWasCountedStays() {
+        HotAisle x = Rig.withFullVessel();
+        x.limit(0);
+        x.blow(0, true);
+        x.minutes(8);
+        Check.same("vessel(0, 6)", x.vessel(0, 6), 3);
+        x.cold(0, 50);
+        x.minutes(1);
+        Check.same("vessel(0, 7)", x.vessel(0, 7), 1);
+        x.blow(0, true);
+        x.blow(0, false);
+        Check.same("vessel(0, 6)", x.vessel(0, 6), 3);
+        Check.same("vessel(0, 7)", x.vessel(0, 7), 1);
     }
 
     /** Vessel 0, blown, has lost all that it held to ladle 0. */

@@ -4,6 +4,7 @@ public final class BookTest {
         beyond();
         throughTheAisle();
         givenBackAndCleaned();
+        lastVesselAndLastLadle();
         Check.end();
     }
 
@@ -71,5 +72,26 @@ public final class BookTest {
         Rig.done(x, 0, "1 clean");
         Rig.booked(x, 7, 2, 0, 0, 2);
         Rig.booked(x, 3, 0, 0, 0, 0);
+    }
+
+    /** LADLE 3 and VESSEL 2 count, and so do all of several: ladles 0 and 3, vessels 0 and 2. */
+    private static void lastVesselAndLastLadle() {
+        HotAisle x = new HotAisle();
+        Rig.feed(x, 2);
+        Rig.done(x, 0, "0");
+        Rig.done(x, 1, "14 take 3 set 15");
+        Rig.done(x, 0, "3 take 0 tap 3 set 0");
+        Rig.booked(x, 2, 8, 6, 4, 0);
+        Rig.done(x, 1, "3 take 12");
+        Rig.feed(x, 1);
+        Rig.done(x, 0, "1 take 0 tap");
+        Rig.booked(x, 2, 8 + 4, 6 + 3, 4 + 2, 0);
+        Rig.done(x, 1, "pour");
+        Rig.booked(x, 1, 6, 6, 4, 0);
+        Rig.booked(x, 3, 2, 0, 0, 0);
+        Rig.done(x, 0, "4 pour");
+        Rig.booked(x, 1, 6 + 2, 6 + 3, 4 + 2, 0);
+        Rig.booked(x, 2, 0, 0, 0, 0);
+        Rig.booked(x, 3, 2 + 2, 0, 0, 0);
     }
 }

@@ -8,6 +8,8 @@ public final class CleanTest {
         noSkull();
         skullOfOne();
         allThatTheSkullIsMadeOf();
+        slagAlone();
+        skullOfTwenty();
         roomAgain();
         Check.end();
     }
@@ -78,6 +80,35 @@ public final class CleanTest {
         Rig.doneAtOnce("of copper and slag", x, 0, "clean");
         Rig.stuffOfLadle(x, 0, 8, 0, 0, 0, 0);
         Rig.booked(x, 7, 2, 0, 0, 2);
+    }
+
+    private static void slagAlone() {
+        HotAisle x = Rig.poured(2, 0);
+        x.blow(0, true);
+        x.minutes(1);
+        x.blow(0, false);
+        Rig.done(x, 0, "0");
+        Rig.done(x, 1, "6 take 4 skim 2 pour");
+        Rig.done(x, 1, "14");
+        Rig.stuffOfLadle(x, 1, 8, 0, 0, 0, 2);
+        Rig.doneAtOnce("of slag", x, 1, "clean");
+        Rig.stuffOfLadle(x, 1, 8, 0, 0, 0, 0);
+        Rig.booked(x, 7, 0, 0, 0, 2);
+    }
+
+    /** All of it goes in one minute. */
+    private static void skullOfTwenty() {
+        HotAisle x = Rig.then(new HotAisle(), 0, "1 take 0");
+        for (int i = 0; i < 10; i++) {
+            Rig.feed(x, 1);
+            Rig.done(x, 0, "tap 4 pour 0");
+        }
+        Rig.stuffOfLadle(x, 0, 8, 20, 0, 0, 0);
+        Rig.done(x, 0, "1");
+        Rig.doneAtOnce("of twenty", x, 0, "clean");
+        Rig.stuffOfLadle(x, 0, 8, 0, 0, 0, 0);
+        Rig.booked(x, 7, 20, 0, 0, 0);
+        Rig.booked(x, 3, 0, 0, 0, 0);
     }
 
     /** A ladle that is clean may 100 again. */

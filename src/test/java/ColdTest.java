@@ -7,6 +7,8 @@ public final class ColdTest {
         beyond();
         noneThatHoldsNothing();
         upToThreeHundred();
+        slagIsHeldToo();
+        upToThreeHundredWithSlag();
         badBeforeNo();
         Check.end();
     }
@@ -75,6 +77,26 @@ public final class ColdTest {
         Refusal.ofCall("cold(0, 50) to 301", () -> Rig.cooled(holding250(), 0, 1), y -> y.cold(0, 50), HotAisle.NO);
     }
 
+    /** "HEAT times what it held": slag alone is something. */
+    private static void slagIsHeldToo() {
+        HotAisle x = Rig.poured(1, 0);
+        x.blow(0, true);
+        x.minutes(2);
+        Rig.stuffOfVessel(x, 0, 0, 0, 0, 5);
+        Check.same("vessel(0, 0)", x.vessel(0, 0), 1156);
+        Check.same("cold(0, 3)", x.cold(0, 3), 1156 * 5 / 8);
+        Rig.stuffOfVessel(x, 0, 3, 0, 0, 5);
+    }
+
+    private static void upToThreeHundredWithSlag() {
+        HotAisle x = with12Slag(299);
+        int heat = x.vessel(0, 0);
+        Check.same("cold(0, 1) makes it 300", x.cold(0, 1), heat * 299 / 300);
+        Rig.stuffOfVessel(x, 0, 244, 21, 23, 12);
+        Refusal.ofCall("cold(0, 2) to 301", () -> with12Slag(299), y -> y.cold(0, 2), HotAisle.NO);
+        Refusal.ofCall("cold(0, 12) to 312", () -> with12Slag(300), y -> y.cold(0, 12), HotAisle.NO);
+    }
+
     /** "Of several the first": BAD. */
     private static void badBeforeNo() {
         Refusal.bad("cold(1, #), empty", 1, 50, (x, n) -> x.cold(1, n));
@@ -88,6 +110,14 @@ public final class ColdTest {
         HotAisle x = Rig.withFullVessel();
         int[] amounts = {50, 50, 50, 2};
         return Rig.cooled(x, 0, amounts);
+    }
+
+    /** So much (299, 300) is in vessel 0, twelve slag among it. */
+    private static HotAisle with12Slag(int units) {
+        HotAisle x = Rig.withFullVessel();
+        x.blow(0, true);
+        x.minutes(2);
+        return Rig.cooled(x, 0, 50, 50, 50, 50, units - 298);
     }
 
     private static HotAisle holding299() {

@@ -5,6 +5,7 @@ public final class DrawTest {
         notCopperAlone();
         nothing();
         blown();
+        blownThoughItHoldsCopperAlone();
         stoppedInThatMinute();
         noLadle();
         ladleIsNotEmpty();
@@ -46,13 +47,28 @@ public final class DrawTest {
         }, 1, "draw");
     }
 
-    /** "is not BLOWN": the vessels come before the cranes, so one that is blown has slag by then. */
+    /** "is not BLOWN": the vessels come before the cranes, and copper that is blown has become slag by then. */
     private static void blown() {
         HotAisle x = Rig.then(Rig.withCopperAlone(), 0, "4");
         x.blow(0, true);
         Rig.refused(x, 0, "draw");
         Rig.stuffOfVessel(x, 0, 26, 0, 0, 12);
         Check.same("ladle(0, 2)", x.ladle(0, 2), 0);
+    }
+
+    /** Six sulphur make no slag: when they are gone the vessel holds copper alone, and is blown. */
+    private static void blownThoughItHoldsCopperAlone() {
+        Refusal.ofOrder("with six sulphur, blown", () -> blownWithSulphur(12), 0, "draw");
+        HotAisle x = blownWithSulphur(6);
+        Rig.give(x, 0, "draw");
+        Check.same("minutes(1)", x.minutes(1), 0);
+        Check.same("crane(0, 4)", x.crane(0, 4), 1);
+        Check.same("vessel(0, 1)", x.vessel(0, 1), 1);
+        Rig.stuffOfVessel(x, 0, 22, 0, 0, 0);
+        x.blow(0, false);
+        Check.same("minutes(1), not blown any more", x.minutes(1), 1);
+        Rig.stuffOfLadle(x, 0, 4, 22, 0, 0, 0);
+        Rig.stuffOfVessel(x, 0, 0, 0, 0, 0);
     }
 
     /** One that is too cold to be blown is not blown any more when the crane comes. */
@@ -140,6 +156,18 @@ public final class DrawTest {
         }
         Rig.done(x, 0, "4");
         Rig.stuffOfVessel(x, 0, copper, 0, 0, 0);
+        return x;
+    }
+
+    /** Vessel 0, blown, with 22 copper, 6 or 12 sulphur, no slag; crane 0 over it with ladle 0, empty. */
+    private static HotAisle blownWithSulphur(int sulphur) {
+        HotAisle x = Rig.poured(6, 0);
+        x.blow(0, true);
+        x.minutes(sulphur == 12 ? 3 : 4);
+        x.blow(0, false);
+        Rig.done(x, 0, "skim 2 pour 4");
+        x.blow(0, true);
+        Rig.stuffOfVessel(x, 0, 22, 0, sulphur, 0);
         return x;
     }
 

@@ -18,6 +18,7 @@ public final class DropTest {
             Check.same("drop(" + crane + ") of one", x.drop(crane), 1);
             Rig.give(x, crane, "1 take 2 3 5 set 6 take");
             Check.same("drop(" + crane + ") of eight", x.drop(crane), 8);
+            Check.same("count(6): none of them is done", x.count(6), 0);
             Check.same("drop(" + crane + ") of none", x.drop(crane), 0);
             Check.same("crane(" + crane + ", 2)", x.crane(crane, 2), 0);
             Check.same("crane(" + crane + ", 3)", x.crane(crane, 3), HotAisle.NONE);

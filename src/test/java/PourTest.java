@@ -8,6 +8,9 @@ public final class PourTest {
         metalElsewhere();
         matteIntoAVessel();
         heatOfBothTogetherIsCut();
+        bothAreCutTogether();
+        slagIsHeldToo();
+        upToThreeHundredWithSlag();
         heatOfAnEmptiedVessel();
         upToThreeHundred();
         notTo301();
@@ -88,6 +91,52 @@ public final class PourTest {
         Rig.doneAtOnce("of matte", x, 0, "pour");
         Check.same("vessel(0, 0)", x.vessel(0, 0), 1105);
         Rig.stuffOfVessel(x, 0, 42 + 41, 33 + 32, 23 + 23, 0);
+    }
+
+    /** 98 at 966 are 487.98 of 194, and 96 at 1150 are 569.07: 1057.05, which is more than 487 and 569. */
+    private static void bothAreCutTogether() {
+        HotAisle x = new HotAisle();
+        Rig.feed(x, 60);
+        Rig.done(x, 0, "1 take 0 tap 4 pour 0 tap");
+        Rig.done(x, 0, "4");
+        x.minutes(12);
+        Check.same("vessel(0, 0)", x.vessel(0, 0), 974);
+        Rig.doneAtOnce("of matte", x, 0, "pour");
+        Check.same("vessel(0, 0)", x.vessel(0, 0), 1057);
+    }
+
+    /** "what it held": its slag too. 5 slag at 1156 grow cold for 7 minutes, and 7 of 9 come to them. */
+    private static void slagIsHeldToo() {
+        HotAisle x = Rig.poured(1, 0);
+        x.blow(0, true);
+        x.minutes(2);
+        x.blow(0, false);
+        Rig.stuffOfVessel(x, 0, 0, 0, 0, 5);
+        Check.same("vessel(0, 0)", x.vessel(0, 0), 1156);
+        Rig.done(x, 0, "0");
+        Rig.feed(x, 1);
+        Rig.done(x, 0, "tap 4");
+        int heat = x.vessel(0, 0) - 8;
+        Rig.doneAtOnce("of matte", x, 0, "pour");
+        Check.same("vessel(0, 0)", x.vessel(0, 0), (heat * 5 + 1150 * 7) / 12);
+        Rig.stuffOfVessel(x, 0, 2, 3, 2, 5);
+    }
+
+    /** Six of the units that the vessel holds are slag: 94 come to 206, and do not come to 207. */
+    private static void upToThreeHundredWithSlag() {
+        HotAisle x = sixSlagAmong(206);
+        Rig.doneAtOnce("to 300", x, 0, "pour");
+        Check.same("all in the vessel", x.book(1, 1) + x.book(1, 2) + x.book(1, 3) + x.book(1, 4), 300);
+        Refusal.ofOrder("to 301", () -> sixSlagAmong(207), 0, "pour");
+    }
+
+    private static HotAisle sixSlagAmong(int units) {
+        HotAisle x = with96Over(194);
+        x.blow(0, true);
+        x.minutes(1);
+        x.blow(0, false);
+        Check.same("vessel(0, 5)", x.vessel(0, 5), 6);
+        return Rig.cooled(x, 0, units - 194);
     }
 
     /** What it held is nothing, so its old heat counts for nothing, even if one unit comes alone. */

@@ -10,6 +10,7 @@ public final class RailTest {
         waitEndsItsMinute();
         doneEndsItsMinute();
         waitsForTheOther();
+        waitsWithEightOrders();
         theOtherMayStandStill();
         neverPassesTheOther();
         craneZeroGoesFirst();
@@ -145,6 +146,19 @@ public final class RailTest {
         Check.same("crane(1, 4)", x.crane(1, 4), 3);
         Check.same("crane(0, 0)", x.crane(0, 0), 10);
         Check.same("crane(1, 0)", x.crane(1, 0), 11);
+    }
+
+    /** What waits stays the first of its orders, and those behind it stay too. */
+    private static void waitsWithEightOrders() {
+        HotAisle x = Rig.then(new HotAisle(), 0, "10");
+        Rig.give(x, 0, "11 take 3 3 3 3 3 3");
+        Rig.give(x, 1, "0 0 0 0 0 0 0 0");
+        x.minutes(20);
+        for (int crane = 0; crane < 2; crane++) {
+            Check.same("crane(" + crane + ", 2)", x.crane(crane, 2), 8);
+            Check.same("crane(" + crane + ", 3)", x.crane(crane, 3), Rig.GO);
+            Check.same("crane(" + crane + ", 4)", x.crane(crane, 4), 20);
+        }
     }
 
     /** One that waits for the other goes on when that has gone. */

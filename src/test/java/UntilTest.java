@@ -8,6 +8,7 @@ public final class UntilTest {
         noMoreThanAreNeeded();
         noMoreThanAreTold();
         bothCranes();
+        bothWaitForEver();
         Check.end();
     }
 
@@ -60,6 +61,15 @@ public final class UntilTest {
         Check.same("crane(0, 2)", x.crane(0, 2), 1);
         Check.same("until(1)", x.until(1), 1);
         Check.same("crane(0, 2)", x.crane(0, 2), 0);
+    }
+
+    private static void bothWaitForEver() {
+        HotAisle x = new HotAisle();
+        Rig.give(x, 0, "set");
+        Rig.give(x, 1, "clean");
+        Check.same("until(200)", x.until(200), 200);
+        Check.same("crane(0, 4)", x.crane(0, 4), 200);
+        Check.same("crane(1, 4)", x.crane(1, 4), 200);
     }
 
     /** "no CRANE": it waits for the last one, whichever that is. */

@@ -7,6 +7,7 @@ public final class WheelTest {
         whatIsLeftIsNotLost();
         whatIsLeftCountsLater();
         anAnodeAMinute();
+        neverTwoInAMinute();
         beforeTheCranes();
         Check.end();
     }
@@ -67,6 +68,18 @@ public final class WheelTest {
         Check.same("count(3) with no copper", x.count(3), 8);
         Check.same("count(4) with no copper", x.count(4), starved + 1);
         Rig.booked(x, 4, 40, 0, 0, 0);
+    }
+
+    /** The more of it there is, the longer it takes: 98 copper are 19 minutes' anodes. */
+    private static void neverTwoInAMinute() {
+        HotAisle x = Rig.cooled(Rig.withCopper(51), 0, 49);
+        Rig.done(x, 1, "6 take 4 draw 15 pour");
+        for (int i = 1; i <= 19; i++) {
+            x.minutes(1);
+            Check.same("count(3)", x.count(3), i);
+        }
+        x.minutes(1);
+        Check.same("count(3) with three copper", x.count(3), 19);
     }
 
     /** What is poured in a minute is cast from the next one on. */
