@@ -7,6 +7,7 @@ public final class ColdTest {
         beyond();
         noneThatHoldsNothing();
         upToThreeHundred();
+        aboveThirteenHundred();
         slagIsHeldToo();
         upToThreeHundredWithSlag();
         badBeforeNo();
@@ -75,6 +76,19 @@ public final class ColdTest {
         heat = x.vessel(0, 0);
         Check.same("cold(0, 50) makes it 300", x.cold(0, 50), heat * 250 / 300);
         Refusal.ofCall("cold(0, 50) to 301", () -> Rig.cooled(holding250(), 0, 1), y -> y.cold(0, 50), HotAisle.NO);
+    }
+
+    /** It may be above 1300 still: 167 units at 1310 and one more are 1302.2. */
+    private static void aboveThirteenHundred() {
+        HotAisle x = Rig.cooled(Rig.withTwoLadles(), 0, 3);
+        x.minutes(1);
+        x.blow(0, true);
+        x.minutes(16);
+        Rig.stuffOfVessel(x, 0, 87, 0, 14, 66);
+        Check.same("vessel(0, 0)", x.vessel(0, 0), 1310);
+        Check.same("cold(0, 1)", x.cold(0, 1), 1302);
+        Check.same("vessel(0, 0)", x.vessel(0, 0), 1302);
+        Check.same("vessel(0, 1)", x.vessel(0, 1), 1);
     }
 
     /** "HEAT times what it held": slag alone is something. */

@@ -6,6 +6,7 @@ public final class DropTest {
         beyond();
         noneIsDone();
         keepsTheLadle();
+        waitsStay();
         Check.end();
     }
 
@@ -63,5 +64,19 @@ public final class DropTest {
         Check.same("order(0, 0, 5)", x.order(0, Rig.GO, 5), 1);
         Check.same("until(20)", x.until(20), 4);
         Check.same("ladle(0, 0)", x.ladle(0, 0), 5);
+    }
+
+    /** WAITS are those of the crane, not of its orders. */
+    private static void waitsStay() {
+        for (int crane = 0; crane < 2; crane++) {
+            HotAisle x = new HotAisle();
+            Rig.give(x, crane, "set set set set set set set set");
+            x.minutes(9);
+            Check.same("drop(" + crane + ")", x.drop(crane), 8);
+            Check.same("crane(" + crane + ", 4)", x.crane(crane, 4), 9);
+            Rig.give(x, crane, "clean");
+            x.minutes(1);
+            Check.same("crane(" + crane + ", 4)", x.crane(crane, 4), 10);
+        }
     }
 }

@@ -19,8 +19,7 @@ public final class HeatTest {
 
     /** "HEAT .. above 1300: is not BLOWN any more (STOPPED is counted)": none of its parts is done, but it grows cold. */
     private static void stopsAt1301() {
-        HotAisle x = twoLadlesPoured();
-        Check.same("heat behind two ladles", x.vessel(0, 0), 1109);
+        HotAisle x = Rig.withTwoLadles();
         x.minutes(3);
         x.blow(0, true);
         x.minutes(15);
@@ -38,7 +37,7 @@ public final class HeatTest {
     }
 
     private static void goesOnAt1300() {
-        HotAisle x = twoLadlesPoured();
+        HotAisle x = Rig.withTwoLadles();
         Check.same("cold(0, 3)", x.cold(0, 3), 1092);
         x.minutes(1);
         x.blow(0, true);
@@ -87,7 +86,7 @@ public final class HeatTest {
         x.minutes(5);
         Check.same("stopped again", x.vessel(0, 7), 2);
         Check.same("blow(0, false)", x.blow(0, false), 0);
-        x = twoLadlesPoured();
+        x = Rig.withTwoLadles();
         x.minutes(3);
         x.blow(0, true);
         x.minutes(16);
@@ -197,14 +196,5 @@ public final class HeatTest {
         Check.same("heat", x.vessel(0, 0), 1150);
         x.minutes(1);
         Check.same("heat", x.vessel(0, 0), 1142);
-    }
-
-    private static HotAisle twoLadlesPoured() {
-        HotAisle x = new HotAisle();
-        Rig.feed(x, 22);
-        Rig.done(x, 0, "1 take 0 tap 4 pour 0 tap");
-        Rig.done(x, 0, "4 pour");
-        Rig.stuffOfVessel(x, 0, 84, 66, 44, 0);
-        return x;
     }
 }

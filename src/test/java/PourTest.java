@@ -18,6 +18,7 @@ public final class PourTest {
         nothingComesIntoAnEmptiedOne();
         nothingComesIntoAFullOne();
         blownToo();
+        emptiedAndStillBlown();
         slagToThePot();
         slagToTheFurnace();
         slagDoesNotFillTheFurnace();
@@ -223,6 +224,24 @@ public final class PourTest {
         Rig.doneAtOnce("of matte", x, 0, "pour");
         Rig.stuffOfVessel(x, 0, 10 + 2, 3 + 3, 6 + 2, 6);
         Check.same("vessel(0, 1)", x.vessel(0, 1), 1);
+    }
+
+    /** It lost its last unit while it was blown; what is poured into it is blown from the next minute on. */
+    private static void emptiedAndStillBlown() {
+        HotAisle x = Rig.poured(1, 0);
+        x.blow(0, true);
+        x.minutes(2);
+        Rig.done(x, 0, "skim 2 pour 0");
+        Rig.stuffOfVessel(x, 0, 0, 0, 0, 0);
+        Rig.feed(x, 3);
+        Rig.done(x, 0, "tap 4");
+        Rig.doneAtOnce("of matte", x, 0, "pour");
+        Rig.stuffOfVessel(x, 0, 10, 9, 6, 0);
+        Check.same("vessel(0, 0)", x.vessel(0, 0), 1150);
+        Check.same("vessel(0, 1)", x.vessel(0, 1), 1);
+        x.minutes(1);
+        Rig.stuffOfVessel(x, 0, 10, 3, 6, 6);
+        Check.same("vessel(0, 0)", x.vessel(0, 0), 1150 + 24 - 8);
     }
 
     /** "(it is gone there, counted)": of twelve ten come. */

@@ -130,6 +130,17 @@ final class Rig {
         return x;
     }
 
+    /** Vessel 0 with 84, 66, 44 at 1109; crane 0 is over it with ladle 0, empty, 4 copper in its skull. */
+    static HotAisle withTwoLadles() {
+        HotAisle x = new HotAisle();
+        feed(x, 22);
+        done(x, 0, "1 take 0 tap 4 pour 0 tap");
+        done(x, 0, "4 pour");
+        stuffOfVessel(x, 0, 84, 66, 44, 0);
+        Check.same("heat behind two ladles", x.vessel(0, 0), 1109);
+        return x;
+    }
+
     /** Vessel 0 with 38 copper alone, not blown; crane 0 at 1 with ladle 0, empty, 2 copper and 2 slag in its skull; 35 slag in the pot. */
     static HotAisle withCopperAlone() {
         HotAisle x = withFullVessel();

@@ -12,6 +12,7 @@ public final class SkimTest {
         asMuchAsIsLeftOfTheLadle();
         fullLadle();
         lessItsSkull();
+        skullOfTwenty();
         blownToo();
         everyVessel();
         Check.end();
@@ -84,7 +85,8 @@ public final class SkimTest {
 
     /** With 66 in it and a skull of 4, a ladle may 30 of 40. */
     private static void asMuchAsIsLeftOfTheLadle() {
-        HotAisle x = iron66();
+        HotAisle x = Rig.withTwoLadles();
+        x.blow(0, true);
         x.minutes(11);
         x.cold(0, 20);
         Rig.doneAtOnce("of 66", x, 0, "skim");
@@ -118,6 +120,24 @@ public final class SkimTest {
         Rig.done(x, 0, "4 skim");
         Rig.stuffOfLadle(x, 0, 4, 0, 0, 0, 10);
         Check.same("vessel(0, 5)", x.vessel(0, 5), 0);
+    }
+
+    /** A ladle with a skull of 20 may 80 of 106, and all of them come to the pot. */
+    private static void skullOfTwenty() {
+        HotAisle x = Rig.then(slag106(), 0, "0");
+        for (int i = 0; i < 8; i++) {
+            Rig.feed(x, 1);
+            Rig.done(x, 0, "tap 8 pour 0");
+        }
+        Rig.stuffOfLadle(x, 0, 8, 20, 0, 0, 0);
+        Rig.done(x, 0, "4");
+        Rig.doneAtOnce("with a skull of 20", x, 0, "skim");
+        Rig.stuffOfLadle(x, 0, 4, 0, 0, 0, 80);
+        Check.same("vessel(0, 5)", x.vessel(0, 5), 26);
+        Rig.refused(x, 0, "skim");
+        Rig.done(x, 0, "2 pour");
+        Rig.booked(x, 5, 0, 0, 0, 80);
+        Rig.stuffOfLadle(x, 0, 8, 20, 0, 0, 0);
     }
 
     /** A vessel that is blown is skimmed behind its parts. */
@@ -170,20 +190,10 @@ public final class SkimTest {
         return x;
     }
 
-    /** Vessel 0 blown, with 84, 66, 44 at 1109; crane 0 over it with ladle 0, empty, 4 copper in its skull. */
-    private static HotAisle iron66() {
-        HotAisle x = new HotAisle();
-        Rig.feed(x, 22);
-        Rig.done(x, 0, "1 take 0 tap 4 pour 0 tap");
-        Rig.done(x, 0, "4 pour");
-        Rig.stuffOfVessel(x, 0, 84, 66, 44, 0);
-        x.blow(0, true);
-        return x;
-    }
-
-    /** The same behind 25 minutes, with 20 copper added, or it would be too hot. */
+    /** Vessel 0 with 106 slag: 25 minutes, with 20 copper added, or it would be too hot; crane 0 over it, a skull of 4. */
     private static HotAisle slag106() {
-        HotAisle x = iron66();
+        HotAisle x = Rig.withTwoLadles();
+        x.blow(0, true);
         x.minutes(11);
         x.cold(0, 20);
         x.minutes(14);

@@ -50,5 +50,11 @@ public final class TakeTest {
         Rig.stuffOfLadle(x, 1, 4, 38, 0, 0, 0);
         Check.same("ladle(1, 2)", x.ladle(1, 2), 3);
         Check.same("ladle(1, 1)", x.ladle(1, 1), 1);
+        x = Rig.then(Rig.withCopperAlone(), 0, "set");
+        Rig.doneAtOnce("with a skull", x, 0, "take");
+        Rig.stuffOfLadle(x, 0, 8, 2, 0, 0, 2);
+        x = Rig.then(Rig.withFullVessel(), 0, "0 tap 3 set");
+        Rig.doneAtOnce("with matte", x, 0, "take");
+        Rig.stuffOfLadle(x, 0, 4, 4, 3, 1, 0);
     }
 }

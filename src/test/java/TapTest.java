@@ -10,6 +10,7 @@ public final class TapTest {
         asMuchAsTheLadleMay();
         oneMoreThanTheLadleMay();
         lessItsSkull();
+        skullOfOne();
         sharesAreCut();
         sulphurLacks();
         Check.end();
@@ -105,6 +106,18 @@ public final class TapTest {
         Check.same("all of the ladle", x.book(2, 1) + x.book(2, 2) + x.book(2, 3), 96);
         Rig.done(x, 0, "1 set 6 take 0 tap");
         Check.same("all of both ladles", x.book(2, 1) + x.book(2, 2) + x.book(2, 3), 196);
+    }
+
+    /** 99 come with a skull of one. */
+    private static void skullOfOne() {
+        HotAisle x = Rig.then(Rig.withCopper(1), 0, "set 0");
+        Rig.done(x, 1, "6 take 4 draw 15 pour 3 set");
+        Rig.done(x, 1, "15");
+        Rig.feed(x, 12);
+        Rig.done(x, 0, "3 take 0 tap");
+        Rig.stuffOfLadle(x, 1, 8, 1, 0, 0, 0);
+        Check.same("all of the ladle", x.book(2, 1) + x.book(2, 2) + x.book(2, 3), 99);
+        Check.same("all of the furnace", x.book(0, 1) + x.book(0, 2) + x.book(0, 3), 9);
     }
 
     /** "what there is times n by all there was, cut; of SULPHUR the rest". */

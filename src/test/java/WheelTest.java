@@ -8,6 +8,7 @@ public final class WheelTest {
         whatIsLeftCountsLater();
         anAnodeAMinute();
         neverTwoInAMinute();
+        twoLadles();
         beforeTheCranes();
         Check.end();
     }
@@ -18,6 +19,10 @@ public final class WheelTest {
         x.minutes(3);
         Check.same("count(4)", x.count(4), 3);
         Check.same("count(3)", x.count(3), 0);
+        for (int i = 1; i <= 5; i++) {
+            x.minutes(60);
+            Check.same("count(4)", x.count(4), 3 + 60 * i);
+        }
     }
 
     /** "with 5 COPPER or more: 5 become an ANODE". */
@@ -80,6 +85,25 @@ public final class WheelTest {
         }
         x.minutes(1);
         Check.same("count(3) with three copper", x.count(3), 19);
+    }
+
+    /** The second is poured while copper of the first is left: none of it is lost. */
+    private static void twoLadles() {
+        HotAisle x = Rig.cooled(Rig.withCopper(51), 0, 50, 50, 49);
+        Rig.done(x, 1, "6 take 4 draw 13 set");
+        Rig.done(x, 1, "10 take 4 draw 15 pour");
+        Rig.booked(x, 4, 98, 0, 0, 0);
+        Rig.done(x, 1, "14");
+        Rig.refused(x, 1, "set");
+        Rig.done(x, 1, "11 set 13 take 15 pour");
+        Rig.booked(x, 4, 98 + 98, 0, 0, 0);
+        int cast = x.count(3);
+        Check.that("much of it is copper still", 98 + 98 - 5 * cast > 100);
+        x.minutes(39 - cast);
+        Check.same("count(3)", x.count(3), 39);
+        x.minutes(1);
+        Check.same("count(3) with one copper", x.count(3), 39);
+        Rig.booked(x, 4, 98 + 98, 0, 0, 0);
     }
 
     /** What is poured in a minute is cast from the next one on. */
