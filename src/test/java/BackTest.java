@@ -9,6 +9,7 @@ public final class BackTest {
         ordersToo();
         lastOfEightOrders();
         lastVesselAndLastLadle();
+        copperAtTheWheelToo();
         Check.end();
     }
 
@@ -224,5 +225,36 @@ public final class BackTest {
         x.minutes(7);
         Check.that("it is held", x.vessel(2, 6) > 0);
         Rig.stuffOfLadle(x, 3, 8, 2, 0, 0, 0);
+    }
+
+    /** Kept while copper is at the wheel: THE LIMIT (30, and 0), and if the furnace is fed. */
+    private static void copperAtTheWheelToo() {
+        HotAisle x = copperAtTheWheel();
+        x.keep();
+        x.limit(0);
+        x.fed(false);
+        x.minutes(3);
+        x.keep();
+        x.limit(7);
+        x.minutes(9);
+        HotAisle second = copperAtTheWheel();
+        second.limit(0);
+        second.fed(false);
+        second.minutes(3);
+        compare("second", x, 2, second);
+        x.minutes(1);
+        Check.same("count(3)", x.count(3), 4);
+        x.keep();
+        x.back();
+        compare("first", x, 1, copperAtTheWheel());
+        x.minutes(1);
+        Check.same("count(3)", x.count(3), 1);
+    }
+
+    private static HotAisle copperAtTheWheel() {
+        HotAisle x = Rig.then(Rig.withMetal(), 1, "15 pour");
+        x.limit(30);
+        x.fed(true);
+        return x;
     }
 }

@@ -98,12 +98,8 @@ public final class CleanTest {
 
     /** All of it goes in one minute. */
     private static void skullOfTwenty() {
-        HotAisle x = Rig.then(new HotAisle(), 0, "1 take 0");
-        for (int i = 0; i < 10; i++) {
-            Rig.feed(x, 1);
-            Rig.done(x, 0, "tap 4 pour 0");
-        }
-        Rig.stuffOfLadle(x, 0, 8, 20, 0, 0, 0);
+        HotAisle x = Rig.withSkull(20);
+        Rig.refused(x, 0, "clean");
         Rig.done(x, 0, "1");
         Rig.doneAtOnce("of twenty", x, 0, "clean");
         Rig.stuffOfLadle(x, 0, 8, 0, 0, 0, 0);

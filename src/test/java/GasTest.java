@@ -13,6 +13,7 @@ public final class GasTest {
         notBlownAheadDoesNotCount();
         eachMinuteAnew();
         threeVessels();
+        threeVesselsAtTheFirstLimit();
         Check.end();
     }
 
@@ -194,6 +195,19 @@ public final class GasTest {
         Rig.stuffOfVessel(x, 2, 22, 0, 6, 18);
         x.minutes(1);
         Check.same("count(2)", x.count(2), 6);
+    }
+
+    /** "THE LIMIT 12" of a new object holds the third. */
+    private static void threeVesselsAtTheFirstLimit() {
+        HotAisle x = threeOfTwelveSulphur();
+        x.limit(12);
+        x.minutes(2);
+        Check.same("count(2)", x.count(2), 12);
+        Check.same("count(1)", x.count(1), 24);
+        Check.same("vessel(2, 6)", x.vessel(2, 6), 2);
+        x.minutes(1);
+        Check.same("count(2)", x.count(2), 6);
+        Check.same("vessel(2, 6)", x.vessel(2, 6), 2);
     }
 
     /** Vessels 0 and 1, blown, with 22 copper, 12 sulphur and 18 slag each. */

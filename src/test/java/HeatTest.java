@@ -177,6 +177,9 @@ public final class HeatTest {
         int heat = x.vessel(0, 0);
         x.minutes(1);
         Check.same("heat of one copper", x.vessel(0, 0), heat - 8);
+        x = Rig.withOneIron();
+        x.minutes(1);
+        Check.same("heat of one iron", x.vessel(0, 0), 1150 - 8);
     }
 
     /** "that holds anything": one that has lost its last unit keeps its HEAT. */

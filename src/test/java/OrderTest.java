@@ -10,6 +10,7 @@ public final class OrderTest {
         roomAgain();
         badBeforeFull();
         oneBehindTheOther();
+        eightThatAreNoGo();
         Check.end();
     }
 
@@ -124,6 +125,25 @@ public final class OrderTest {
         x.minutes(1);
         Check.same("orders at last", x.crane(0, 2), 0);
         Check.same("count(6)", x.count(6), 8);
+    }
+
+    /** One is done in each minute, the first of eight too. */
+    private static void eightThatAreNoGo() {
+        int[] places = {1, 14};
+        for (int crane = 0; crane < 2; crane++) {
+            HotAisle x = Rig.then(new HotAisle(), crane, String.valueOf(places[crane]));
+            Rig.give(x, crane, "take set take set take set take set");
+            for (int left = 7; left >= 0; left--) {
+                Check.same("minutes(1)", x.minutes(1), 1);
+                Check.same("crane(" + crane + ", 2)", x.crane(crane, 2), left);
+                Check.same("crane(" + crane + ", 1)", x.crane(crane, 1), left % 2 == 0 ? HotAisle.NONE : 3 * crane);
+            }
+            Check.same("crane(" + crane + ", 4)", x.crane(crane, 4), 0);
+            // Behind one that can't be done all wait.
+            Rig.give(x, crane, "set take set take set take set take");
+            Check.same("minutes(3)", x.minutes(3), 0);
+            Check.same("crane(" + crane + ", 2)", x.crane(crane, 2), 8);
+        }
     }
 
     /** Crane 1 with so many orders, which move it to and fro, and at last to 14. */

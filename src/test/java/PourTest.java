@@ -176,21 +176,32 @@ public final class PourTest {
         Rig.stuffOfVessel(x, 0, 43, 36, 24, 0);
         Rig.stuffOfLadle(x, 0, 8, 5, 0, 0, 0);
         Check.same("ladle(0, 2)", x.ladle(0, 2), 0);
-        x = Rig.then(withOneCopper(), 0, "8");
+        nothingComesIntoAnEmptyOne(1);
+        nothingComesIntoAnEmptyOne(2);
+    }
+
+    private static void nothingComesIntoAnEmptyOne(int vessel) {
+        HotAisle x = Rig.then(withOneCopper(), 1, "15");
+        Rig.done(x, 0, String.valueOf(4 * vessel + 4));
         Rig.doneAtOnce("of one", x, 0, "pour");
-        Check.same("vessel(1, 0) of an empty one", x.vessel(1, 0), 1150);
-        Rig.stuffOfVessel(x, 1, 0, 0, 0, 0);
-        Check.same("blow(1, true)", x.blow(1, true), HotAisle.NO);
+        Check.same("heat of an empty one", x.vessel(vessel, 0), 1150);
+        Rig.stuffOfVessel(x, vessel, 0, 0, 0, 0);
+        Check.same("blow(" + vessel + ", true)", x.blow(vessel, true), HotAisle.NO);
         Rig.stuffOfLadle(x, 0, 8, 5, 0, 0, 0);
         Check.same("ladle(0, 2)", x.ladle(0, 2), 0);
     }
 
-    /** An emptied vessel keeps the heat that it had, though what it holds and what comes are both nothing. */
+    /** An emptied vessel keeps the heat that it had, though what it holds and what comes are both nothing; blown or not. */
     private static void nothingComesIntoAnEmptiedOne() {
+        nothingComesIntoAnEmptied(true);
+        nothingComesIntoAnEmptied(false);
+    }
+
+    private static void nothingComesIntoAnEmptied(boolean blown) {
         HotAisle x = Rig.poured(1, 0);
         x.blow(0, true);
         x.minutes(2);
-        x.blow(0, false);
+        x.blow(0, blown);
         Rig.done(x, 0, "3 set 6 take 4 skim 6 set");
         Rig.stuffOfVessel(x, 0, 0, 0, 0, 0);
         int heat = x.vessel(0, 0);
@@ -200,7 +211,9 @@ public final class PourTest {
         Rig.done(x, 0, "tap 8 pour 0 tap 4");
         Rig.stuffOfLadle(x, 0, 4, 1, 0, 0, 0);
         Rig.doneAtOnce("of one", x, 0, "pour");
+        x.minutes(1);
         Check.same("vessel(0, 0)", x.vessel(0, 0), heat);
+        Check.same("vessel(0, 1)", x.vessel(0, 1), blown ? 1 : 0);
         Rig.stuffOfVessel(x, 0, 0, 0, 0, 0);
     }
 

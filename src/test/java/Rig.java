@@ -105,6 +105,34 @@ final class Rig {
         return x;
     }
 
+    /** Crane 0, at the furnace, which is empty, pours what is fed in a minute into vessel 0 or 1, and comes back. */
+    static void pourNine(HotAisle x, int vessel) {
+        feed(x, 1);
+        done(x, 0, "tap " + (4 * vessel + 4) + " pour 0");
+    }
+
+    /** Crane 0 at the furnace, which is empty, with ladle 0, empty, so much copper (even) in its skull; 3.5 times that in vessel 0. */
+    static HotAisle withSkull(int copper) {
+        HotAisle x = then(new HotAisle(), 0, "1 take 0");
+        for (int i = 0; i < copper / 2; i++) {
+            pourNine(x, 0);
+        }
+        stuffOfLadle(x, 0, 8, copper, 0, 0, 0);
+        return x;
+    }
+
+    /** Crane 0 at 4 with ladle 0, empty, 15 copper and one iron in its skull; the furnace is empty. */
+    static HotAisle withIronInTheSkull() {
+        HotAisle x = withSkull(12);
+        feed(x, 10);
+        done(x, 0, "tap");
+        stuffOfLadle(x, 0, 4, 39, 29, 20, 0);
+        booked(x, 0, 1, 1, 0, 0);
+        done(x, 0, "4 pour 0 tap 4 pour");
+        stuffOfLadle(x, 0, 8, 15, 1, 0, 0);
+        return x;
+    }
+
     /** Vessel 0 with so much copper (1 to 51) alone; crane 0 at 1 with ladle 0, empty, no skull; the furnace is empty. */
     static HotAisle withCopper(int copper) {
         HotAisle x = poured(1, 0);

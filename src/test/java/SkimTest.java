@@ -126,8 +126,7 @@ public final class SkimTest {
     private static void skullOfTwenty() {
         HotAisle x = Rig.then(slag106(), 0, "0");
         for (int i = 0; i < 8; i++) {
-            Rig.feed(x, 1);
-            Rig.done(x, 0, "tap 8 pour 0");
+            Rig.pourNine(x, 1);
         }
         Rig.stuffOfLadle(x, 0, 8, 20, 0, 0, 0);
         Rig.done(x, 0, "4");

@@ -1,4 +1,4 @@
-/** The SKULL of a ladle: what freezes to it at a POUR, and what it is made of (promises 8, 11, 13). */
+/** The SKULL of a ladle: what freezes to it at a POUR, and what it is made of (promises 8, 11, 13). At 20: FullSkullTest. */
 public final class SkullTest {
     public static void main(String[] args) {
         twoOfWhatItHeld();
@@ -8,13 +8,6 @@ public final class SkullTest {
         ofSlag();
         allOfALittleSlag();
         ofMetal();
-        from18To20();
-        from19To20();
-        noneAbove20();
-        allKindsAreOfThe20();
-        roomInTheVesselAt19();
-        roomInTheVesselAt20();
-        twentyLeavesRoomForEighty();
         copperFirstThenIron();
         keepsWhatItIsMadeOf();
         noneIfItWaits();
@@ -100,115 +93,12 @@ public final class SkullTest {
         Rig.booked(x, 3, 4, 0, 0, 2);
     }
 
-    /** "a SKULL of 0 to 20": ten pours of nine make it 20, two by two. */
-    private static void from18To20() {
-        HotAisle x = withSkull(18);
-        int[] before = vesselOf(x);
-        pourNine(x);
-        Rig.stuffOfLadle(x, 0, 8, 20, 0, 0, 0);
-        Rig.stuffOfVessel(x, 0, before[0] + 2, before[1] + 3, before[2] + 2, 0);
-    }
-
-    /** "less, if the SKULL would be above 20": one of nine. */
-    private static void from19To20() {
-        HotAisle x = withSkull19();
-        int[] before = vesselOf(x);
-        pourNine(x);
-        Rig.stuffOfLadle(x, 0, 8, 20, 0, 0, 0);
-        Rig.stuffOfVessel(x, 0, before[0] + 3, before[1] + 3, before[2] + 2, 0);
-    }
-
-    /** None of nine, so all that it held comes. */
-    private static void noneAbove20() {
-        HotAisle x = withSkull(20);
-        int[] before = vesselOf(x);
-        pourNine(x);
-        Rig.stuffOfLadle(x, 0, 8, 20, 0, 0, 0);
-        Rig.stuffOfVessel(x, 0, before[0] + 4, before[1] + 3, before[2] + 2, 0);
-        pourNine(x);
-        Rig.stuffOfLadle(x, 0, 8, 20, 0, 0, 0);
-        Rig.stuffOfVessel(x, 0, before[0] + 8, before[1] + 6, before[2] + 4, 0);
-    }
-
-    /** "a SKULL of 0 to 20": 16 copper, one iron, one slag and the next two are 20. */
-    private static void allKindsAreOfThe20() {
-        HotAisle x = Rig.withCopperAlone();
-        Rig.done(x, 0, "0 tap 8 pour 0");
-        Rig.stuffOfLadle(x, 0, 8, 4, 0, 0, 2);
-        for (int i = 0; i < 7; i++) {
-            pourNine(x);
-        }
-        Rig.stuffOfLadle(x, 0, 8, 18, 0, 0, 2);
-        pourNine(x);
-        Rig.stuffOfLadle(x, 0, 8, 18, 0, 0, 2);
-        x = withIronInTheSkull();
-        Rig.done(x, 0, "0");
-        pourNine(x);
-        pourNine(x);
-        Rig.stuffOfLadle(x, 0, 8, 19, 1, 0, 0);
-        pourNine(x);
-        Rig.stuffOfLadle(x, 0, 8, 19, 1, 0, 0);
-        Rig.feed(x, 9);
-        Rig.done(x, 0, "tap");
-        Check.same("all of the ladle", x.book(2, 1) + x.book(2, 2) + x.book(2, 3), 80);
-    }
-
-    /** "(if it holds all that comes)": 80 come of 81, for one freezes. */
-    private static void roomInTheVesselAt19() {
-        HotAisle x = filledUpTo(withSkull19(), 220);
-        Rig.stuffOfLadle(x, 0, 4, 36, 27, 18, 0);
-        pourEighty(x);
-        Rig.stuffOfLadle(x, 0, 8, 20, 0, 0, 0);
-        Refusal.ofOrder("to 301", () -> filledUpTo(withSkull19(), 221), 0, "pour");
-    }
-
-    /** 80 come of 80, for none freezes. */
-    private static void roomInTheVesselAt20() {
-        HotAisle x = filledUpTo(withSkull(20), 220);
-        Rig.stuffOfLadle(x, 0, 4, 35, 26, 19, 0);
-        pourEighty(x);
-        Rig.stuffOfLadle(x, 0, 8, 20, 0, 0, 0);
-        Refusal.ofOrder("to 301", () -> filledUpTo(withSkull(20), 221), 0, "pour");
-        Refusal.ofOrder("to 302", () -> filledUpTo(withSkull(20), 222), 0, "pour");
-    }
-
-    private static void pourEighty(HotAisle x) {
-        int heat = x.vessel(0, 0) - 8;
-        Rig.doneAtOnce("to 300", x, 0, "pour");
-        Check.same("all in the vessel", all(x), 300);
-        Check.same("vessel(0, 0)", x.vessel(0, 0), (heat * 220 + 1150 * 80) / 300);
-    }
-
-    /** Crane 0 comes from the furnace with all that its ladle may, over vessel 0 with so much. */
-    private static HotAisle filledUpTo(HotAisle x, int units) {
-        Rig.feed(x, 20);
-        Rig.done(x, 0, "tap 4");
-        for (int missing = units - all(x); missing > 0; missing -= 50) {
-            x.cold(0, Math.min(50, missing));
-        }
-        Check.same("all in the vessel", all(x), units);
-        return x;
-    }
-
-    private static int all(HotAisle x) {
-        return x.book(1, 1) + x.book(1, 2) + x.book(1, 3) + x.book(1, 4);
-    }
-
-    /** "at most 100 less its SKULL": 80, 60, 40 of 180 are 35.5, 26.6 and what is left of 80. */
-    private static void twentyLeavesRoomForEighty() {
-        HotAisle x = withSkull(20);
-        Rig.feed(x, 20);
-        Rig.done(x, 0, "tap");
-        Rig.stuffOfLadle(x, 0, 4, 35, 26, 19, 0);
-        Rig.booked(x, 0, 45, 34, 21, 0);
-    }
-
     /**
      * "COPPER first, then IRON": a tap of 88 leaves 1 copper and 1 iron of 90, and both freeze. No tap leaves
      * sulphur with less than two of copper and iron, so that sulphur never freezes.
      */
     private static void copperFirstThenIron() {
-        HotAisle x = withIronInTheSkull();
+        HotAisle x = Rig.withIronInTheSkull();
         Rig.booked(x, 3, 15, 1, 0, 0);
         Rig.done(x, 0, "1 clean");
         Rig.booked(x, 7, 15, 1, 0, 0);
@@ -253,46 +143,5 @@ public final class SkullTest {
         x.minutes(1);
         x.blow(0, false);
         Rig.done(x, 0, "skim 2 pour " + then);
-    }
-
-    /** Crane 0 at the furnace, which is empty, with ladle 0, empty, so much copper (even) in its skull. */
-    private static HotAisle withSkull(int copper) {
-        HotAisle x = Rig.then(new HotAisle(), 0, "1 take 0");
-        for (int i = 0; i < copper / 2; i++) {
-            pourNine(x);
-        }
-        Rig.stuffOfLadle(x, 0, 8, copper, 0, 0, 0);
-        return x;
-    }
-
-    /** Crane 0 at 4 with ladle 0, empty, 15 copper and one iron in its skull; the furnace is empty. */
-    private static HotAisle withIronInTheSkull() {
-        HotAisle x = withSkull(12);
-        Rig.feed(x, 10);
-        Rig.done(x, 0, "tap");
-        Rig.stuffOfLadle(x, 0, 4, 39, 29, 20, 0);
-        Rig.booked(x, 0, 1, 1, 0, 0);
-        Rig.done(x, 0, "4 pour 0 tap 4 pour");
-        Rig.stuffOfLadle(x, 0, 8, 15, 1, 0, 0);
-        return x;
-    }
-
-    /** A pour of one copper makes it odd. */
-    private static HotAisle withSkull19() {
-        HotAisle x = Rig.then(Rig.withOneInTheFurnace(), 0, "tap 4 pour 0");
-        for (int i = 0; i < 7; i++) {
-            pourNine(x);
-        }
-        Rig.stuffOfLadle(x, 0, 8, 19, 0, 0, 0);
-        return x;
-    }
-
-    private static void pourNine(HotAisle x) {
-        Rig.feed(x, 1);
-        Rig.done(x, 0, "tap 4 pour 0");
-    }
-
-    private static int[] vesselOf(HotAisle x) {
-        return new int[] {x.vessel(0, 2), x.vessel(0, 3), x.vessel(0, 4)};
     }
 }

@@ -87,10 +87,11 @@ public final class WalkTest {
     private void tell() {
         int vessel = number(3);
         int k = number(52);
+        int gas = next(3) == 0 ? 30 * next(2) : number(32);
         boolean on = next(3) > 0;
         switch (next(8)) {
             case 0: same("fed(" + on + ")", x.fed(on), model.fed(on)); break;
-            case 1: same("limit(" + k / 2 + ")", x.limit(k / 2), model.limit(k / 2)); break;
+            case 1: same("limit(" + gas + ")", x.limit(gas), model.limit(gas)); break;
             case 2: same("cold(" + vessel + ", " + k + ")", x.cold(vessel, k), model.cold(vessel, k)); break;
             case 3: same("drop(" + vessel + ")", x.drop(vessel), model.drop(vessel)); break;
             case 4: order(vessel, number(8), number(16)); break;
