@@ -244,11 +244,13 @@ public final class BackTest {
         compare("second", x, 2, second);
         x.minutes(1);
         Check.same("count(3)", x.count(3), 4);
+        Rig.booked(x, 4, 36, 0, 0, 0);
         x.keep();
         x.back();
         compare("first", x, 1, copperAtTheWheel());
         x.minutes(1);
         Check.same("count(3)", x.count(3), 1);
+        Rig.booked(x, 4, 36, 0, 0, 0);
     }
 
     private static HotAisle copperAtTheWheel() {

@@ -146,6 +146,17 @@ public final class DrawTest {
         Check.same("vessel(0, 0)", x.vessel(0, 0), 0);
         Rig.doneAtOnce("of a cold one", x, 0, "draw");
         Rig.stuffOfLadle(x, 0, 4, 30, 0, 0, 0);
+        x = Rig.withFullVessel();
+        x.blow(0, true);
+        Rig.done(x, 1, "6 take");
+        x.minutes(10);
+        Rig.stuffOfVessel(x, 0, 2, 0, 0, 73);
+        x.blow(0, false);
+        Rig.give(x, 1, "4");
+        Rig.done(x, 0, "skim 3");
+        Check.that("it is hot", x.vessel(0, 0) > 1250);
+        Rig.doneAtOnce("of a hot one", x, 1, "draw");
+        Rig.stuffOfLadle(x, 1, 4, 2, 0, 0, 0);
     }
 
     /** Crane 0 with ladle 0, empty, no skull, over vessel 0 with so much copper alone. */

@@ -14,6 +14,7 @@ public final class GasTest {
         eachMinuteAnew();
         threeVessels();
         threeVesselsAtTheFirstLimit();
+        threeVesselsAtTheMostLimit();
         Check.end();
     }
 
@@ -208,6 +209,17 @@ public final class GasTest {
         x.minutes(1);
         Check.same("count(2)", x.count(2), 6);
         Check.same("vessel(2, 6)", x.vessel(2, 6), 2);
+    }
+
+    private static void threeVesselsAtTheMostLimit() {
+        HotAisle x = threeOfTwelveSulphur();
+        x.limit(30);
+        x.minutes(1);
+        Check.same("count(2)", x.count(2), 18);
+        Check.same("count(1)", x.count(1), 18);
+        for (int vessel = 0; vessel < 3; vessel++) {
+            Check.same("vessel(" + vessel + ", 6)", x.vessel(vessel, 6), 0);
+        }
     }
 
     /** Vessels 0 and 1, blown, with 22 copper, 12 sulphur and 18 slag each. */
